@@ -37,6 +37,7 @@ public final class CartoonHouse {
     private static final int MOST_SAMPLES = 100;
     private static final int CLEAR = -1;
     private static final int FAR = 400;
+    private static final int FARTHEST = 1000000000;
     private static final int[] QUARTER_SINE = {0, 200, 392, 569, 724, 851, 946, 1004, 1024};
     private static final Kind[] KINDS = Kind.values();
 
@@ -1332,7 +1333,7 @@ public final class CartoonHouse {
             isOpen = false;
             comeTo(seed);
             // once it is OPEN nobody asks for the rest of it
-            for (int k = 0; k < reachedCount && !isOpen; k++) {
+            for (int k = 0; k < PIXELS && k < reachedCount && !isOpen; k++) {
                 int p = reached[k];
                 comeTo(p - 1);
                 comeTo(p + 1);
@@ -1357,7 +1358,7 @@ public final class CartoonHouse {
 
         /** A PIXEL of the border makes the REGION OPEN, so no step ever leaves a row at its side. */
         private void comeTo(int p) {
-            if (p >= 0 && p < PIXELS && walls[p] == 0) {
+            if (p >= 0 && p < PIXELS && reachedCount < PIXELS && walls[p] == 0) {
                 walls[p] = REACHED;
                 reached[reachedCount] = p;
                 reachedCount++;
@@ -1747,7 +1748,7 @@ public final class CartoonHouse {
             int turned = fixed.directionAt(frame);
             int leftX = x - fixed.endAt(frame, 0);
             int leftY = y - fixed.endAt(frame, 1);
-            int nearest = Integer.MAX_VALUE;
+            int nearest = FARTHEST;
             int found = 0;
             for (int a = top.low; a <= top.high; a++) {
                 int first = (turned + a) & (TURN - 1);
@@ -2057,8 +2058,9 @@ public final class CartoonHouse {
         }
 
         void findNeeded(int node) {
-            Arrays.fill(isNeeded, false);
-            isNeeded[node] = true;
+            for (int n = 0; n < MOST_NODES; n++) {
+                isNeeded[n] = n == node;
+            }
             for (int n = node; n >= 0; n--) {
                 for (int k = 0; k < kinds[n].nodes && isNeeded[n]; k++) {
                     isNeeded[tells[n][k]] = true;
