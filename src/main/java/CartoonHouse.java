@@ -1561,15 +1561,11 @@ public final class CartoonHouse {
             return i * (MOST_STROKES + 1) + j;
         }
 
+        /** Without them STROKE i has no way but j, so j goes to no other one in a row of the least SUM. */
         private void forbidOthers(int i, int j) {
             for (int k = 0; k <= MOST_STROKES; k++) {
                 if (k != j) {
                     costs[place(i, k)] = FORBIDDEN;
-                }
-            }
-            for (int k = 0; k < firstCount; k++) {
-                if (k != i) {
-                    costs[place(k, j)] = FORBIDDEN;
                 }
             }
         }

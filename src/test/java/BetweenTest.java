@@ -207,6 +207,8 @@ public final class BetweenTest {
         CHECKS.due("written", "1 0,0 10,0\n2 40,30 47,31\n", Checks.written(house, 2));
         CHECKS.due("early", 2, house.tween(0, 1, 1, 4, 2));
         CHECKS.due("written", "1 1,1 10,1\n2 40,30 47,31\n", Checks.written(house, 2));
+        CHECKS.due("still early", 2, house.tween(0, 1, 9, 20, 2));
+        CHECKS.due("written", "1 2,2 10,2\n2 40,30 47,31\n", Checks.written(house, 2));
         CHECKS.due("the half is late", 2, house.tween(0, 1, 2, 4, 2));
         CHECKS.due("written", "4 2,2 10,3\n3 20,2 20,12\n", Checks.written(house, 2));
         CHECKS.due("at the end", 2, house.tween(0, 1, 4, 4, 2));

@@ -35,12 +35,19 @@ public final class CameraTest {
         CHECKS.due("in place of one", 8, house.camera(119, 0, 0, 64));
         CHECKS.due("zoom 0 is no more", 8, house.camera(0, 0, 0, 0));
         CHECKS.due("count(8)", 8, house.count(8));
+        CHECKS.due("seen by a key's x", 24 - 6, house.seen(0, 24, 16, 77, 0));
         CHECKS.due("one goes", 7, house.camera(112, 0, 0, 0));
+        CHECKS.due("the others stay", 24 - 2, house.seen(0, 24, 16, 105, 0));
+        CHECKS.due("the others stay", 16 + 2, house.seen(0, 24, 16, 105, 1));
+        CHECKS.due("between neighbours now", 24 - 1, house.seen(0, 24, 16, 112, 0));
+        CHECKS.due("the last one", 24, house.seen(0, 24, 16, 119, 0));
         CHECKS.due("camera", 8, house.camera(0, 0, 0, 64));
     }
 
     private static void depthsAndPlaces() {
         CartoonHouse house = new CartoonHouse();
+        CHECKS.due("without keys", 400, house.seen(0, 400, -400, 0, 0));
+        CHECKS.due("without keys", -400, house.seen(0, 400, -400, 0, 1));
         CHECKS.due("depth", 64, house.depth(0, 16));
         CHECKS.due("depth", 16, house.depth(0, 1024));
         CHECKS.due("depth", -1, house.depth(0, 15));

@@ -34,6 +34,10 @@ public final class FillTest {
         CHECKS.due("take", 0, house.take(0, 0));
         CHECKS.due("region", -5, house.region(0, 0));
         CHECKS.due("paint", 0, house.paint(0, 15, 15));
+        CartoonHouse small = new CartoonHouse();
+        Checks.stroke(small, 0, "1 10,10 12,10 12,12 10,12 10,10");
+        CHECKS.due("one pixel", 1, small.fill(0, 11, 11, 0, 3));
+        CHECKS.due("one pixel", 3, small.paint(0, 11, 11));
         // steps go to the sides alone, so a slanted line is a wall
         CartoonHouse slanted = new CartoonHouse();
         Checks.stroke(slanted, 0, "1 10,5 15,10 10,15 5,10 10,5");
@@ -61,16 +65,35 @@ public final class FillTest {
         Checks.stroke(two, 0, "1 22,10 22,20 12,20");
         CHECKS.due("gap 1", -5, two.fill(0, 15, 15, 1, 2));
         CHECKS.due("gap 2", 99, two.fill(0, 15, 15, 2, 2));
-        // a ring has no ends
-        CartoonHouse ring = new CartoonHouse();
-        Checks.stroke(ring, 0, "1 10,20 10,10 20,10");
-        Checks.stroke(ring, 0, "1 22,10 23,10 22,10");
-        CHECKS.due("a ring's points", -5, ring.fill(0, 15, 15, 8, 2));
+        endsAndRings();
         // the line of a closing goes from the first one to the other, so a half falls to one side
         CartoonHouse half = new CartoonHouse();
         Checks.stroke(half, 0, "1 10,10 10,20 20,20 20,10 12,10");
         Checks.stroke(half, 0, "1 12,10 12,9");
         CHECKS.due("gap 2", 81, half.fill(0, 15, 15, 2, 2));
+    }
+
+    private static void endsAndRings() {
+        String open = "1 10,10 20,10 20,20 10,20 10,13";
+        // a ring has no ends: 10,11 is no end, from which 10,13 would be near
+        CartoonHouse ring = new CartoonHouse();
+        Checks.stroke(ring, 0, open);
+        Checks.stroke(ring, 0, "1 10,11 9,11 10,11");
+        CHECKS.due("a ring's points", -5, ring.fill(0, 15, 15, 2, 2));
+        ring.take(0, 1);
+        Checks.stroke(ring, 0, "1 10,11 9,11");
+        CHECKS.due("ends", 81, ring.fill(0, 15, 15, 2, 2));
+        // the first and the last POINT alone say whether a stroke has ends
+        CartoonHouse back = new CartoonHouse();
+        Checks.stroke(back, 0, "1 10,10 20,10 20,20 10,20 10,14");
+        Checks.stroke(back, 0, "1 8,13 10,13 8,13 10,13");
+        CHECKS.due("ends of one that goes to and fro", 81, back.fill(0, 15, 15, 3, 2));
+        // the ends of another drawing are none here
+        CartoonHouse two = new CartoonHouse();
+        Checks.stroke(two, 0, open);
+        Checks.stroke(two, 1, "1 10,11 10,12");
+        CHECKS.due("paint", 1, two.paint(1, 10, 11));
+        CHECKS.due("another drawing's ends", -5, two.fill(0, 15, 15, 2, 2));
     }
 
     private static void borders() {
@@ -89,6 +112,14 @@ public final class FillTest {
         CHECKS.due("the corner", -5, corner.fill(0, 2, 2, 0, 1));
         Checks.stroke(corner, 0, "1 47,26 42,26 42,31");
         CHECKS.due("the other corner", -5, corner.fill(0, 45, 29, 0, 1));
+        String[] cells = {"1 0,9 1,9 1,11 0,11", "1 47,9 46,9 46,11 47,11", "1 9,0 9,1 11,1 11,0",
+            "1 9,31 9,30 11,30 11,31", "1 1,0 1,1 0,1", "1 46,31 46,30 47,30", "1 46,0 46,1 47,1", "1 0,30 1,30 1,31"};
+        int[][] seeds = {{0, 10}, {47, 10}, {10, 0}, {10, 31}, {0, 0}, {47, 31}, {47, 0}, {0, 31}};
+        for (int k = 0; k < cells.length; k++) {
+            CartoonHouse cell = new CartoonHouse();
+            Checks.stroke(cell, 0, cells[k]);
+            CHECKS.due("a cell of one pixel at the border", -5, cell.fill(0, seeds[k][0], seeds[k][1], 0, 1));
+        }
         CartoonHouse whole = new CartoonHouse();
         Checks.stroke(whole, 0, "1 0,0 47,0 47,31 0,31 0,0");
         CHECKS.due("all but the border", 46 * 30, whole.fill(0, 20, 20, 0, 1));
@@ -116,6 +147,15 @@ public final class FillTest {
         CHECKS.due("unfill", -1, house.unfill(5, -1));
         CHECKS.due("unfill", -1, house.unfill(16, 0));
         CHECKS.due("count(1)", 2, house.count(1));
+        CartoonHouse other = new CartoonHouse();
+        Checks.stroke(other, 0, "1 2,2 6,2 6,6 2,6 2,2");
+        Checks.stroke(other, 0, "1 10,10 20,10 20,20 10,20 10,13");
+        CHECKS.due("fill", 9, other.fill(0, 4, 4, 0, 1));
+        CHECKS.due("fill", 81, other.fill(0, 15, 15, 3, 2));
+        CHECKS.due("unfill", 1, other.unfill(0, 0));
+        CHECKS.due("its seed, gap and colour come along", 81, other.region(0, 0));
+        CHECKS.due("paint", 2, other.paint(0, 15, 15));
+        CHECKS.due("paint", 0, other.paint(0, 4, 4));
     }
 
     private static void painting() {

@@ -37,6 +37,7 @@ public final class LipsTest {
         for (int k = 0; k < texts.length; k++) {
             CHECKS.due("language " + texts[k], -1000 - places[k], Checks.language(house, texts[k]));
         }
+        CHECKS.due("language", 1, Checks.language(house, "q=0"));
         for (int k = 0; k < 26; k++) {
             CHECKS.due("nothing changed", 0, house.letter(k));
         }

@@ -49,7 +49,7 @@ public final class NodeTest {
             "fade 0 1 5 120", "fade 0 1 119 119", "fade 0 2 1 2", "fade 0 1 1", "blur 2", "blur", "blur 1 ",
             "sparks 100000 0 0 1 0", "sparks -100000 0 0 1 0", "sparks 0 48 0 1 0", "sparks 0 0 32 1 0",
             "sparks 0 0 0 0 0", "sparks 0 0 0 21 0", "sparks 0 0 0 1 16777216", "sparks 0 0 0 1", "sparks 0 -1 0 1 0",
-            "over,0 0", "zzz", "over0 1", "overA 0 1"};
+            "over,0 0", "zzz", "over0 1", "overA 0 1", "xaper 1", "lover 0 1"};
         int[] places = {0, 0, 0, 0, 0, 0, 0, 5, 6, 6,
             6, 6, 7, 7, 7, 5, 6, 8,
             7, 8, 5, 7, 6, 5, 8, 10,
@@ -57,7 +57,7 @@ public final class NodeTest {
             11, 13, 7, 10, 5, 4, 6,
             7, 7, 9, 11,
             13, 13, 15, 14, 9,
-            4, 0, 0, 4};
+            4, 0, 0, 4, 0, 0};
         for (int k = 0; k < texts.length; k++) {
             CHECKS.due("node " + texts[k], -1000 - places[k], Checks.node(house, texts[k]));
         }
@@ -173,8 +173,14 @@ public final class NodeTest {
         CHECKS.due("the other way: A alone no more", -1, house.sample(3, 12, 9, 9));
         CHECKS.due("the other way: both", 1118481, house.sample(3, 14, 10, 10));
         CHECKS.due("drawn", 25, house.drawn(3, 14));
+        Checks.node(house, "fade 0 0 0 1");
+        CHECKS.due("G next to F", 1118481, house.sample(4, 0, 10, 10));
+        CHECKS.due("G next to F", 2 * 1118481, house.sample(4, 1, 12, 12));
+        Checks.node(house, "fade 0 1 10 15");
+        CHECKS.due("less than a half: B alone is not", -1, house.sample(5, 12, 9, 9));
+        CHECKS.due("more than a half: B alone is", 200, house.sample(5, 13, 9, 9));
         Checks.node(house, "fade 0 0 10 14");
-        CHECKS.due("where neither is", -1, house.sample(4, 12, 9, 9));
+        CHECKS.due("where neither is", -1, house.sample(6, 12, 9, 9));
     }
 
     private static void blurs() {
@@ -199,6 +205,19 @@ public final class NodeTest {
         Checks.node(edge, "blur 0");
         CHECKS.due("at the screen's corner", 85 << 16 | 170 << 8 | 2, edge.sample(1, 0, 0, 0));
         CHECKS.due("drawn", 3, edge.drawn(1, 0));
+        CartoonHouse far = new CartoonHouse();
+        Checks.stroke(far, 0, "1 46,30 46,31");
+        Checks.stroke(far, 0, "2 47,30 47,31");
+        far.colour(0, 1, 0x100000);
+        far.colour(0, 2, 0x000020);
+        Checks.sheet(far, 0, "0");
+        Checks.node(far, "layer 0 0");
+        Checks.node(far, "blur 0");
+        Checks.node(far, "sparks 1 30 9 1 70000");
+        Checks.node(far, "blur 2");
+        CHECKS.due("at the other corner", 0x080010, far.sample(1, 0, 47, 31));
+        CHECKS.due("at the other corner", 0x080010, far.sample(1, 0, 46, 30));
+        CHECKS.due("one pixel alone", 70000, far.sample(3, 0, 30, 9));
     }
 
     private static int hash(int h, int a, int b, int c, int d) {

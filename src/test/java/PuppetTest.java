@@ -72,6 +72,16 @@ public final class PuppetTest {
         CHECKS.due("no frame", -1, house.key(0, -1, 5));
         CHECKS.due("no bone", -1, house.key(1, 0, 5));
         CHECKS.due("no bone", -1, house.key(-1, 0, 5));
+        CartoonHouse unsorted = new CartoonHouse();
+        unsorted.bone(-1, 1, 0, 31);
+        int[] frames = {50, 10, 30, 119, 0, 20};
+        for (int f : frames) {
+            unsorted.key(0, f, f / 4);
+        }
+        for (int f : frames) {
+            CHECKS.due("a key's own", f / 4, unsorted.angle(0, f));
+        }
+        CHECKS.due("between neighbours", 6, unsorted.angle(0, 25));
         CHECKS.due("no frame", -1, house.angle(0, 120));
         CHECKS.due("no frame", -1, house.angle(0, -1));
         CHECKS.due("no bone", -1, house.angle(1, 0));
@@ -98,12 +108,25 @@ public final class PuppetTest {
             CHECKS.due("x of bone 2", x + half(40 * SINES[(a + 11) % 32]), house.at(2, 5, 0));
             CHECKS.due("y of bone 2", y + half(40 * SINES[(a + 3) % 32]), house.at(2, 5, 1));
         }
+        allLengths();
         CHECKS.due("no bone", -100000, house.at(3, 0, 0));
         CHECKS.due("no bone", -100000, house.at(-1, 0, 0));
         CHECKS.due("no frame", -100000, house.at(0, 120, 0));
         CHECKS.due("no frame", -100000, house.at(0, -1, 0));
         CHECKS.due("no axis", -100000, house.at(0, 0, 2));
         CHECKS.due("no axis", -100000, house.at(0, 0, -1));
+    }
+
+    private static void allLengths() {
+        for (int length = 0; length <= 40; length++) {
+            CartoonHouse house = new CartoonHouse();
+            house.bone(-1, length, 0, 31);
+            for (int a = 0; a < 32; a++) {
+                house.key(0, 0, a);
+                CHECKS.due("x of length " + length, 24 + half(length * SINES[(a + 8) % 32]), house.at(0, 0, 0));
+                CHECKS.due("y of length " + length, 16 + half(length * SINES[a]), house.at(0, 0, 1));
+            }
+        }
     }
 
     private static void reaching() {
@@ -210,6 +233,9 @@ public final class PuppetTest {
         }
         CHECKS.due("bone 0 is full, but not asked", 0, Math.min(0, chain.reach(3, 50, 0, 0)));
         CHECKS.due("here it is", -4, chain.reach(2, 50, 0, 0));
+        CHECKS.due("the parent alone is full", -4, chain.reach(1, 50, 0, 0));
+        CHECKS.due("the bone alone is full", -4, chain.reach(0, 50, 0, 0));
+        CHECKS.due("nothing changed", 1, chain.key(1, 50, 0));
     }
 
     private static void swinging() {

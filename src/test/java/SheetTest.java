@@ -29,6 +29,8 @@ public final class SheetTest {
         CHECKS.due("brackets", 12, Checks.sheet(house, 3, "(1 2*2)*3 5 (-)*2"));
         CHECKS.due("told", "1 2*2 1 2*2 1 2*2 5 -*2", Checks.told(house, 3));
         CHECKS.due("layer 0 stays", 3, house.shown(0, 0));
+        CHECKS.due("once", 2, Checks.sheet(house, 3, "7*1 -*1"));
+        CHECKS.due("told", "7 -", Checks.told(house, 3));
         CHECKS.due("99", 99, Checks.sheet(house, 3, "7*99"));
         CHECKS.due("120", 120, Checks.sheet(house, 3, "7*99 6*20 5"));
         CHECKS.due("shown", 5, house.shown(3, 119));
@@ -86,6 +88,10 @@ public final class SheetTest {
         CHECKS.due("full", -4, house.stretch(0, 20, 19));
         CHECKS.due("to none", 6, house.stretch(0, 1, 20));
         CHECKS.due("to none", 0, house.stretch(0, 1, 20));
+        Checks.sheet(house, 1, "8 9");
+        CHECKS.due("wrong", -1002, Checks.sheet(house, 1, "5 x"));
+        CHECKS.due("nothing is left of a wrong one", 4, house.stretch(1, 2, 1));
+        CHECKS.due("told", "8*2 9*2", Checks.told(house, 1));
         CHECKS.due("wrong", -1, house.stretch(0, 0, 1));
         CHECKS.due("wrong", -1, house.stretch(0, 1, 0));
         CHECKS.due("wrong", -1, house.stretch(0, 21, 1));
@@ -103,6 +109,10 @@ public final class SheetTest {
         CHECKS.due("told", "1*99 1", Checks.told(house, 0));
         Checks.sheet(house, 0, "1*50 1*49");
         CHECKS.due("told", "1*99", Checks.told(house, 0));
+        Checks.sheet(house, 0, "2 1*60 1*50");
+        CHECKS.due("told", "2 1*99 1*11", Checks.told(house, 0));
+        Checks.sheet(house, 0, "2*9 1*90 1*5 3");
+        CHECKS.due("told", "2*9 1*95 3", Checks.told(house, 0));
         Checks.sheet(house, 0, "-*60 -*60");
         CHECKS.due("told", "-*99 -*21", Checks.told(house, 0));
         Checks.sheet(house, 0, "(10 11)*20 (10 11)*20 (10 11)*20");

@@ -105,6 +105,14 @@ public final class StrokeTest {
         // the distance is just e: close; a bit more: not
         CHECKS.due("fit", 2, fitted("1 0,0 5,3 10,0", 3));
         CHECKS.due("fit", 3, fitted("1 0,0 5,4 10,0", 3));
+        CHECKS.due("fit, slanted", 2, fitted("1 10,20 14,22 20,25", 0));
+        CHECKS.due("fit, slanted", 3, fitted("1 10,20 14,23 20,25", 0));
+        CHECKS.due("fit, slanted", 2, fitted("1 10,20 14,23 20,25", 1));
+        // 4 * 13 - 3 * 1 is 49, and 5 is the length: 9.8 away
+        CHECKS.due("fit, slanted", 2, fitted("1 30,10 31,23 34,13", 10));
+        CHECKS.due("fit, slanted", 3, fitted("1 30,10 31,23 34,13", 9));
+        CHECKS.due("fit, slanted the other way", 2, fitted("1 30,20 29,10 26,17", 10));
+        CHECKS.due("fit, slanted the other way", 3, fitted("1 30,20 29,10 26,17", 7));
         // a ring: the last one is like the first one, so another one stays ahead of it
         CHECKS.due("fit of a ring", 3, fitted("1 5,5 6,5 6,6 5,6 5,5", 20));
         house = new CartoonHouse();
@@ -144,6 +152,8 @@ public final class StrokeTest {
         lineOf("1 0,0 1,4", "0,0 0,1 1,2 1,3 1,4");
         lineOf("1 1,4 0,0", "0,0 0,1 1,2 1,3 1,4");
         lineOf("1 1,0 0,4", "1,0 1,1 1,2 0,3 0,4");
+        lineOf("1 2,2 3,3", "2,2 3,3");
+        lineOf("1 3,2 2,2", "2,2 3,2");
     }
 
     private static void lineOf(String stroke, String pixels) {
@@ -188,6 +198,14 @@ public final class StrokeTest {
         }
         CHECKS.due("nine strokes, early", -4, other.erase(0, 15, 0, 1));
         CHECKS.due("count(0)", 8, other.count(0));
+        // the ninth is followed by a SEGMENT that goes
+        other.take(0, 7);
+        Checks.stroke(other, 0, "5 10,5 15,5 15,2");
+        CHECKS.due("nine strokes, the last one short", -4, other.erase(0, 15, 1, 1));
+        CHECKS.due("count(0)", 8, other.count(0));
+        other.take(0, 5);
+        CHECKS.due("eight strokes, the last one short", 2, other.erase(0, 15, 1, 1));
+        CHECKS.due("count(0)", 8, other.count(0));
     }
 
     private static int meetings(String one, String two) {
@@ -214,6 +232,8 @@ public final class StrokeTest {
         CHECKS.due("boxes meet, lines do not", 0, meetings("1 0,0 10,10", "1 7,0 10,3"));
         CHECKS.due("at a corner two pairs", 2, meetings("1 0,0 5,0 5,5", "1 5,0 9,0"));
         CHECKS.due("corner on corner", 4, meetings("1 0,0 5,0 5,5", "1 9,0 5,0 9,9"));
+        CHECKS.due("just beside", 0, meetings("1 0,0 3,2", "1 1,1 4,3"));
+        meetingAtRandom();
         CartoonHouse house = new CartoonHouse();
         Checks.stroke(house, 0, "1 0,0 1,1");
         CHECKS.due("itself", -1, house.meets(0, 0, 0));
@@ -221,6 +241,30 @@ public final class StrokeTest {
         CHECKS.due("none", -1, house.meets(0, 1, 0));
         CHECKS.due("none", -1, house.meets(0, -1, 0));
         CHECKS.due("none", -1, house.meets(16, 0, 1));
+    }
+
+    /** Whether lines meet is asked here by where they cross, in whole numbers; parallel ones are left out. */
+    private static void meetingAtRandom() {
+        java.util.Random random = new java.util.Random(3);
+        for (int k = 0; k < 400; k++) {
+            int[] n = new int[8];
+            for (int j = 0; j < 8; j++) {
+                n[j] = 20 + random.nextInt(9);
+            }
+            int ax = n[2] - n[0];
+            int ay = n[3] - n[1];
+            int bx = n[6] - n[4];
+            int by = n[7] - n[5];
+            int whole = ax * by - ay * bx;
+            if (whole != 0) {
+                int t = ((n[4] - n[0]) * by - (n[5] - n[1]) * bx) * Integer.signum(whole);
+                int u = ((n[4] - n[0]) * ay - (n[5] - n[1]) * ax) * Integer.signum(whole);
+                boolean isDue = 0 <= t && t <= Math.abs(whole) && 0 <= u && u <= Math.abs(whole);
+                CHECKS.due("meets at random", isDue ? 1 : 0,
+                        meetings("1 " + n[0] + "," + n[1] + " " + n[2] + "," + n[3],
+                                "1 " + n[4] + "," + n[5] + " " + n[6] + "," + n[7]));
+            }
+        }
     }
 
     private static void areas() {
@@ -233,6 +277,9 @@ public final class StrokeTest {
         CHECKS.due("area", -100, house.area(0, 1));
         CHECKS.due("area", 0, house.area(0, 2));
         CHECKS.due("area", 6, house.area(0, 3));
+        Checks.stroke(house, 1, "1 5,5 9,5 9,6 9,9 5,9");
+        CHECKS.due("fit", 4, house.fit(1, 0, 0));
+        CHECKS.due("area of what is left", 32, house.area(1, 0));
         CHECKS.due("area", -1000000, house.area(0, 4));
         CHECKS.due("area", -1000000, house.area(0, -1));
         CHECKS.due("area", -1000000, house.area(16, 0));

@@ -49,6 +49,7 @@ public final class TrackTest {
         }
         CHECKS.due("one too many", -1200, Checks.track(house, 0, 0, Checks.repeat("1", 101)));
         CHECKS.due("one too many that is none", -1200, Checks.track(house, 0, 0, Checks.repeat("1", 100) + " x"));
+        CHECKS.due("a blank behind the last", -1200, Checks.track(house, 0, 0, Checks.repeat("1", 100) + " "));
         CHECKS.due("nothing changed", 50, house.mix(3));
         CHECKS.due("nothing changed", 0, house.mix(0));
     }
