@@ -120,6 +120,12 @@ public final class FillTest {
             Checks.stroke(cell, 0, cells[k]);
             CHECKS.due("a cell of one pixel at the border", -5, cell.fill(0, seeds[k][0], seeds[k][1], 0, 1));
         }
+        // no step leads from the end of one row to the begin of the next one
+        CartoonHouse sides = new CartoonHouse();
+        Checks.stroke(sides, 0, "1 0,9 1,9 1,11 0,11");
+        Checks.stroke(sides, 0, "1 47,9 46,9 46,11 47,11");
+        CHECKS.due("walls at both sides", -5, sides.fill(0, 0, 10, 0, 1));
+        CHECKS.due("walls at both sides", -5, sides.fill(0, 47, 10, 0, 1));
         CartoonHouse whole = new CartoonHouse();
         Checks.stroke(whole, 0, "1 0,0 47,0 47,31 0,31 0,0");
         CHECKS.due("all but the border", 46 * 30, whole.fill(0, 20, 20, 0, 1));

@@ -206,17 +206,19 @@ public final class NodeTest {
         CHECKS.due("at the screen's corner", 85 << 16 | 170 << 8 | 2, edge.sample(1, 0, 0, 0));
         CHECKS.due("drawn", 3, edge.drawn(1, 0));
         CartoonHouse far = new CartoonHouse();
+        Checks.stroke(far, 0, "3 47,30 47,31");
         Checks.stroke(far, 0, "1 46,30 46,31");
-        Checks.stroke(far, 0, "2 47,30 47,31");
+        Checks.stroke(far, 0, "2 47,30 46,31");
         far.colour(0, 1, 0x100000);
         far.colour(0, 2, 0x000020);
+        far.colour(0, 3, 0x000800);
         Checks.sheet(far, 0, "0");
         Checks.node(far, "layer 0 0");
         Checks.node(far, "blur 0");
         Checks.node(far, "sparks 1 30 9 1 70000");
         Checks.node(far, "blur 2");
-        CHECKS.due("at the other corner", 0x080010, far.sample(1, 0, 47, 31));
-        CHECKS.due("at the other corner", 0x080010, far.sample(1, 0, 46, 30));
+        CHECKS.due("at the other corner", 0x040210, far.sample(1, 0, 47, 31));
+        CHECKS.due("at the other corner", 0x040210, far.sample(1, 0, 46, 30));
         CHECKS.due("one pixel alone", 70000, far.sample(3, 0, 30, 9));
     }
 
