@@ -27,6 +27,7 @@ public final class CameraBoundsTest {
         wigglesOfEveryNought();
         wigglesOfMostNought();
         wigglesAreKeptOnThePaper();
+        wigglesOfAllPoints();
         wigglesOfWhatIsShown();
         wigglesMakePointsAlike();
         wiggleRefuses();
@@ -39,24 +40,29 @@ public final class CameraBoundsTest {
 
     private static void keysTellHowMany() {
         Script s = on("Promise 38: THE CAMERA's KEY at a FRAME: how many KEYS");
-        s.due(1, "camera", 0, 400, -400, 16).due(2, "camera", 119, -400, 400, 256).due(3, "camera", 60, 0, 0, 64).due(3, "count", 8);
+        s.due(1, "camera", 0, 400, -400, 16).due(2, "camera", 119, -400, 400, 256).due(3, "camera", 60, 0, 0, 64);
+        s.due(3, "count", 8);
     }
 
     private static void keysInPlaceOfOne() {
         Script s = on("Promise 38: in place of one there");
-        s.due(1, "camera", 5, 9, 8, 64).due(1, "camera", 5, 1, 2, 64).due(23, "seen", 0, 24, 16, 5, 0).due(14, "seen", 0, 24, 16, 5, 1);
+        s.due(1, "camera", 5, 9, 8, 64).due(1, "camera", 5, 1, 2, 64).due(23, "seen", 0, 24, 16, 5, 0);
+        s.due(14, "seen", 0, 24, 16, 5, 1);
         s.due(1, "camera", 5, 1, 2, 128).due(22, "seen", 0, 24, 16, 5, 0).due(1, "count", 8);
     }
 
     private static void zoomNoughtTakesAKey() {
         Script s = on("Promise 38: ZOOM 0: none is there any more");
-        s.due(0, "camera", 5, 0, 0, 0).due(1, "camera", 5, 9, 9, 64).due(1, "camera", 4, 0, 0, 0).due(1, "camera", 6, 0, 0, 0);
-        s.due(15, "seen", 0, 24, 16, 5, 0).due(0, "camera", 5, -400, 400, 0).due(24, "seen", 0, 24, 16, 5, 0).due(0, "camera", 5, 0, 0, 0);
+        s.due(0, "camera", 5, 0, 0, 0).due(1, "camera", 5, 9, 9, 64).due(1, "camera", 4, 0, 0, 0);
+        s.due(1, "camera", 6, 0, 0, 0);
+        s.due(15, "seen", 0, 24, 16, 5, 0).due(0, "camera", 5, -400, 400, 0).due(24, "seen", 0, 24, 16, 5, 0);
+        s.due(0, "camera", 5, 0, 0, 0);
         for (int k = 0; k < 8; k++) {
             s.due(k + 1, "camera", 10 * k, k, -k, 64);
         }
         // never FULL; the others stay
-        s.due(8, "camera", 119, 0, 0, 0).due(7, "camera", 30, 0, 0, 0).due(6, "camera", 0, 0, 0, 0).due(5, "camera", 70, 0, 0, 0);
+        s.due(8, "camera", 119, 0, 0, 0).due(7, "camera", 30, 0, 0, 0).due(6, "camera", 0, 0, 0, 0);
+        s.due(5, "camera", 70, 0, 0, 0);
         s.due(23, "seen", 0, 24, 16, 0, 0).due(20, "seen", 0, 24, 16, 40, 0).due(21, "seen", 0, 24, 16, 30, 0);
         s.due(18, "seen", 0, 24, 16, 119, 0).due(22, "seen", 0, 24, 16, 119, 1).due(5, "count", 8);
     }
@@ -76,19 +82,22 @@ public final class CameraBoundsTest {
         for (int k = 0; k < 8; k++) {
             s.due(k + 1, "camera", 119 - 17 * k, k, -k, 64);
         }
-        s.due(-4, "camera", 1, 0, 0, 64).due(-4, "camera", 118, 0, 0, 16).due(8, "camera", 0, 5, 5, 256).due(8, "count", 8);
+        s.due(-4, "camera", 1, 0, 0, 64).due(-4, "camera", 118, 0, 0, 16).due(8, "camera", 0, 5, 5, 256);
+        s.due(8, "count", 8);
         for (int k = 0; k < 7; k++) {
             s.due(24 - k, "seen", 0, 24, 16, 119 - 17 * k, 0).due(16 + k, "seen", 0, 24, 16, 119 - 17 * k, 1);
         }
         // NONE is told ahead of it
-        s.due(-1, "camera", 1, 401, 0, 64).due(-1, "camera", 1, 0, 0, 15).due(7, "camera", 0, 0, 0, 0).due(8, "camera", 1, 0, 0, 64);
+        s.due(-1, "camera", 1, 401, 0, 64).due(-1, "camera", 1, 0, 0, 15).due(7, "camera", 0, 0, 0, 0);
+        s.due(8, "camera", 1, 0, 0, 64);
         s.due(-4, "camera", 0, 0, 0, 64);
     }
 
     private static void cameraRefuses() {
         Script s = on("Promise 38: NONE if one can't be");
         s.outside(-1, "camera", Script.with(0, 0, 0, 64), 0, 119, -400, 400, -400, 400, 16, 256);
-        s.due(-1, "camera", 0, 0, 0, 1).due(-1, "camera", 0, 0, 0, -1).due(-1, "camera", 0, 0, 0, -64).due(0, "count", 8);
+        s.due(-1, "camera", 0, 0, 0, 1).due(-1, "camera", 0, 0, 0, -1).due(-1, "camera", 0, 0, 0, -64);
+        s.due(0, "count", 8);
     }
 
     private static void depthsAtTheBounds() {
@@ -113,7 +122,8 @@ public final class CameraBoundsTest {
         Script s = on("Part VIII: 0, 0, 64 without KEYS");
         for (int depth : new int[] {16, 64, 1024}) {
             s.same("depth", 2, depth);
-            s.due(-400, "seen", 2, -400, 400, 0, 0).due(400, "seen", 2, -400, 400, 0, 1).due(24, "seen", 2, 24, 16, 119, 0);
+            s.due(-400, "seen", 2, -400, 400, 0, 0).due(400, "seen", 2, -400, 400, 0, 1);
+            s.due(24, "seen", 2, 24, 16, 119, 0);
         }
         s.due(1, "camera", 7, 5, 5, 128).due(0, "camera", 7, 5, 5, 0).due(400, "seen", 2, 400, 0, 7, 0);
     }
@@ -142,14 +152,16 @@ public final class CameraBoundsTest {
         s.due(1, "camera", 10, 10, -10, 64).due(2, "camera", 14, 20, -16, 66).due(14, "seen", 0, 24, 16, 0, 0);
         s.due(26, "seen", 0, 24, 16, 0, 1).due(3, "seen", 0, 24, 16, 119, 0);
         // at 12: X 15, Y -13, ZOOM 65; at 11: X 12.5 to 13, Y -1.5 to -1, ZOOM 64.5 to 65
-        s.due(24 - 15, "seen", 0, 24, 16, 12, 0).due(16 + 13, "seen", 0, 24, 16, 12, 1).due(24 - 13, "seen", 0, 24, 16, 11, 0);
+        s.due(24 - 15, "seen", 0, 24, 16, 12, 0).due(16 + 13, "seen", 0, 24, 16, 12, 1);
+        s.due(24 - 13, "seen", 0, 24, 16, 11, 0);
         s.due(16 + 11, "seen", 0, 24, 16, 11, 1);
     }
 
     private static void seenRounded() {
         Script s = on("Part VIII: ROUND, a half upwards");
         // ZOOM 96: 1.5 times
-        s.due(1, "camera", 0, 0, 0, 96).due(26, "seen", 0, 25, 16, 0, 0).due(23, "seen", 0, 23, 16, 0, 0).due(27, "seen", 0, 26, 16, 0, 0);
+        s.due(1, "camera", 0, 0, 0, 96).due(26, "seen", 0, 25, 16, 0, 0).due(23, "seen", 0, 23, 16, 0, 0);
+        s.due(27, "seen", 0, 26, 16, 0, 0);
         s.due(18, "seen", 0, 24, 17, 0, 1).due(15, "seen", 0, 24, 15, 0, 1).due(13, "seen", 0, 24, 14, 0, 1);
     }
 
@@ -162,8 +174,10 @@ public final class CameraBoundsTest {
 
     private static void cutOffOfNone() {
         Script s = on("Promise 41: NONE if none is");
-        s.due(-1, "cutOff", 0, 0, 119).due(-1, "cutOff", 3, 0, 0).due(1, "camera", 60, 0, 0, 256).due(-1, "cutOff", 0, 0, 119);
-        s.due(1, "camera", 60, 1, 0, 64).due(0, "cutOff", 0, 0, 119).due(2, "camera", 59, 0, 0, 64).due(-1, "cutOff", 0, 0, 59);
+        s.due(-1, "cutOff", 0, 0, 119).due(-1, "cutOff", 3, 0, 0).due(1, "camera", 60, 0, 0, 256);
+        s.due(-1, "cutOff", 0, 0, 119);
+        s.due(1, "camera", 60, 1, 0, 64).due(0, "cutOff", 0, 0, 119).due(2, "camera", 59, 0, 0, 64);
+        s.due(-1, "cutOff", 0, 0, 59);
         s.due(60, "cutOff", 0, 0, 119);
     }
 
@@ -171,18 +185,24 @@ public final class CameraBoundsTest {
         Script s = on("Part VIII: the place at 0, 0 of THE SCREEN, or that at 47, 31, is not on the paper");
         int[][] ways = {{1, 0}, {-1, 0}, {0, 1}, {0, -1}};
         for (int[] way : ways) {
-            s.due(1, "camera", 0, way[0], way[1], 64).due(0, "cutOff", 0, 0, 119).due(1, "camera", 0, 0, 0, 64).due(-1, "cutOff", 0, 0, 119);
+            s.due(1, "camera", 0, way[0], way[1], 64).due(0, "cutOff", 0, 0, 119).due(1, "camera", 0, 0, 0, 64);
+            s.due(-1, "cutOff", 0, 0, 119);
         }
         // nearer by a quarter the field is smaller: places 5 .. 42 and 3 .. 28 are there
-        s.due(1, "camera", 0, 5, 3, 80).due(-1, "cutOff", 0, 0, 0).due(1, "camera", 0, 6, 0, 80).due(0, "cutOff", 0, 0, 0);
-        s.due(1, "camera", 0, -5, -3, 80).due(-1, "cutOff", 0, 0, 0).due(1, "camera", 0, -6, 0, 80).due(0, "cutOff", 0, 0, 0);
-        s.due(1, "camera", 0, 0, 4, 80).due(0, "cutOff", 0, 0, 0).due(1, "camera", 0, 0, -4, 80).due(0, "cutOff", 0, 0, 0);
+        s.due(1, "camera", 0, 5, 3, 80).due(-1, "cutOff", 0, 0, 0).due(1, "camera", 0, 6, 0, 80);
+        s.due(0, "cutOff", 0, 0, 0);
+        s.due(1, "camera", 0, -5, -3, 80).due(-1, "cutOff", 0, 0, 0).due(1, "camera", 0, -6, 0, 80);
+        s.due(0, "cutOff", 0, 0, 0);
+        s.due(1, "camera", 0, 0, 4, 80).due(0, "cutOff", 0, 0, 0).due(1, "camera", 0, 0, -4, 80);
+        s.due(0, "cutOff", 0, 0, 0);
     }
 
     private static void cutOffByAHalf() {
         Script s = on("Part VIII: 24 + ROUND of ((x - 24) * 64 * DEPTH + 64 * X * ZOOM) / (ZOOM * DEPTH), a half upwards");
-        s.due(64, "depth", 0, 128).due(1, "camera", 0, -1, 0, 64).due(-1, "cutOff", 0, 0, 0).due(1, "camera", 0, 1, 0, 64);
-        s.due(0, "cutOff", 0, 0, 0).due(1, "camera", 0, -2, 0, 64).due(0, "cutOff", 0, 0, 0).due(1, "camera", 0, 0, -1, 64);
+        s.due(64, "depth", 0, 128).due(1, "camera", 0, -1, 0, 64).due(-1, "cutOff", 0, 0, 0);
+        s.due(1, "camera", 0, 1, 0, 64);
+        s.due(0, "cutOff", 0, 0, 0).due(1, "camera", 0, -2, 0, 64).due(0, "cutOff", 0, 0, 0);
+        s.due(1, "camera", 0, 0, -1, 64);
         s.due(-1, "cutOff", 0, 0, 0).due(1, "camera", 0, 0, 1, 64).due(0, "cutOff", 0, 0, 0).due(128, "depth", 0, 129);
         s.due(-1, "cutOff", 0, 0, 0);
     }
@@ -190,24 +210,30 @@ public final class CameraBoundsTest {
     private static void cutOffByZoom() {
         Script s = on("Part VIII: CUT OFF by a ZOOM");
         // 24 * 64 / 63 is 24.38, 24 * 64 / 62 is 24.77
-        s.due(1, "camera", 0, 0, 0, 63).due(-1, "cutOff", 0, 0, 119).due(1, "camera", 0, 0, 0, 62).due(0, "cutOff", 0, 0, 119);
-        s.due(1, "camera", 0, 0, 0, 16).due(0, "cutOff", 0, 0, 119).due(1, "camera", 0, 0, 0, 256).due(-1, "cutOff", 0, 0, 119);
+        s.due(1, "camera", 0, 0, 0, 63).due(-1, "cutOff", 0, 0, 119).due(1, "camera", 0, 0, 0, 62);
+        s.due(0, "cutOff", 0, 0, 119);
+        s.due(1, "camera", 0, 0, 0, 16).due(0, "cutOff", 0, 0, 119).due(1, "camera", 0, 0, 0, 256);
+        s.due(-1, "cutOff", 0, 0, 119);
         // at 47, 31 lie 24 + ROUND of 5.75 + X, 16 + ROUND of 3.75 + Y
-        s.due(1, "camera", 0, 17, 11, 256).due(-1, "cutOff", 0, 0, 119).due(1, "camera", 0, 18, 11, 256).due(0, "cutOff", 0, 0, 119);
+        s.due(1, "camera", 0, 17, 11, 256).due(-1, "cutOff", 0, 0, 119).due(1, "camera", 0, 18, 11, 256);
+        s.due(0, "cutOff", 0, 0, 119);
         s.due(1, "camera", 0, 17, 12, 256).due(0, "cutOff", 0, 0, 119);
     }
 
     private static void cutOffIsTheFirst() {
         Script s = on("Promise 41: the first FRAME from one to another one");
         s.due(1, "camera", 10, 0, 0, 64).due(2, "camera", 20, 10, 0, 64).due(3, "camera", 30, 0, 0, 64);
-        s.due(11, "cutOff", 0, 0, 119).due(11, "cutOff", 0, 11, 11).due(-1, "cutOff", 0, 0, 10).due(15, "cutOff", 0, 15, 119);
-        s.due(29, "cutOff", 0, 29, 119).due(-1, "cutOff", 0, 30, 119).due(-1, "cutOff", 0, 119, 119).due(11, "cutOff", 0, 10, 11);
+        s.due(11, "cutOff", 0, 0, 119).due(11, "cutOff", 0, 11, 11).due(-1, "cutOff", 0, 0, 10);
+        s.due(15, "cutOff", 0, 15, 119);
+        s.due(29, "cutOff", 0, 29, 119).due(-1, "cutOff", 0, 30, 119).due(-1, "cutOff", 0, 119, 119);
+        s.due(11, "cutOff", 0, 10, 11);
     }
 
     private static void cutOffRefuses() {
         Script s = on("Promise 41: NONE if there are none such");
         s.due(1, "camera", 0, 400, 0, 64).outside(-1, "cutOff", Script.with(0, 0, 119), 0, 3, 0, 119, 0, 119);
-        s.due(-1, "cutOff", 0, 1, 0).due(-1, "cutOff", 0, 119, 0).due(0, "cutOff", 0, 0, 0).due(119, "cutOff", 3, 119, 119);
+        s.due(-1, "cutOff", 0, 1, 0).due(-1, "cutOff", 0, 119, 0).due(0, "cutOff", 0, 0, 0);
+        s.due(119, "cutOff", 3, 119, 119);
     }
 
     /** Node 0 shows layer 0 with drawing 0 in all FRAMES. */
@@ -282,6 +308,28 @@ public final class CameraBoundsTest {
             s.same("sample", 0, f, 47, 31);
             s.same("sample", 0, f, 47, 0);
             s.same("sample", 0, f, 0, 31);
+        }
+    }
+
+    private static void wigglesOfAllPoints() {
+        String[] strokes = new String[8];
+        for (int k = 0; k < 8; k++) {
+            StringBuilder points = new StringBuilder().append(k + 1);
+            for (int j = 0; j < 10; j++) {
+                points.append(' ').append(5 * j + 1).append(',').append(4 * k + j % 2 * 2);
+            }
+            strokes[k] = points.toString();
+        }
+        Script s = shows("Part VIII: POINT j of STROKE i, ten of eight", strokes);
+        s.due(1, "wiggle", 0, -7, 1, 3);
+        for (int f = 0; f < 120; f += 9) {
+            s.same("drawn", 0, f);
+            for (int k = 0; k < 8; k++) {
+                s.same("sample", 0, f, 46, 4 * k + 2);
+            }
+        }
+        for (int k = 0; k < 8; k++) {
+            s.due(k + 1, "paint", 0, 46, 4 * k + 2);
         }
     }
 

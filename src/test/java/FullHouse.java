@@ -29,7 +29,8 @@ final class FullHouse {
         for (int k = 1; k <= 6; k++) {
             s.due(81, "fill", 0, 10 + k, 15, k < 3 ? 3 : k, k);
         }
-        s.text("1 10,11 20,20").due(0, "stroke", 1).text("2 0,30 9,30").due(1, "stroke", 1).due(2236962, "colour", 1, 2, 777);
+        s.text("1 10,11 20,20").due(0, "stroke", 1).text("2 0,30 9,30").due(1, "stroke", 1);
+        s.due(2236962, "colour", 1, 2, 777);
     }
 
     private static void sheetAndMarks(Script s) {

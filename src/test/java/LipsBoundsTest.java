@@ -8,6 +8,7 @@ public final class LipsBoundsTest {
         mouthsOfLetters();
         theLastOneTold();
         wrongLanguagesChangeNothing();
+        wrongLanguagesAreNotTakenUpLater();
         letterRefuses();
         soundsOneAtLeast();
         framesOfASound();
@@ -36,7 +37,8 @@ public final class LipsBoundsTest {
 
     /** A SPEECH by a LANGUAGE of a 1, b 2, c 3, d 4, and the MOUTHS that are due, each with its FRAMES. */
     private static void says(Script s, String speech, int... due) {
-        s.text("a=1 b=2 c=3 d=4").due(4, "language").text(speech).due(due.length / 2, "speech").due(due.length / 2, "count", 6);
+        s.text("a=1 b=2 c=3 d=4").due(4, "language").text(speech).due(due.length / 2, "speech");
+        s.due(due.length / 2, "count", 6);
         int first = 0;
         for (int k = 0; k < due.length / 2; k++) {
             s.due(due[2 * k], "mouth", k, 0).due(first, "mouth", k, 1).due(due[2 * k + 1], "mouth", k, 2);
@@ -47,24 +49,31 @@ public final class LipsBoundsTest {
 
     private static void groupsOneAtLeast() {
         Script s = on("Part VII: a text of groups, one at least, with a blank between");
-        s.wrong(0, "", "language").wrong(0, " ", "language").wrong(4, "a=1 ", "language").wrong(4, "a=1  b=2", "language");
-        s.wrong(0, " a=1", "language").wrong(3, "a=1,b=2", "language").wrong(3, "a=1b=2", "language").text("a=1").due(1, "language");
+        s.wrong(0, "", "language").wrong(0, " ", "language").wrong(4, "a=1 ", "language");
+        s.wrong(4, "a=1  b=2", "language");
+        s.wrong(0, " a=1", "language").wrong(3, "a=1,b=2", "language").wrong(3, "a=1b=2", "language").text("a=1");
+        s.due(1, "language");
         s.text("a=1 b=2").due(2, "language").text(Checks.repeat("z=7", 400)).due(400, "language");
     }
 
     private static void lettersOneAtLeast() {
         Script s = on("Part VII: letters, one at least, =");
-        s.wrong(0, "=1", "language").wrong(4, "a=1 =2", "language").wrong(1, "a", "language").wrong(1, "a1", "language");
-        s.wrong(1, "a b=1", "language").wrong(0, "A=1", "language").wrong(1, "aB=1", "language").wrong(0, "`=1", "language");
-        s.wrong(0, "{=1", "language").wrong(1, "a.=1", "language").text("abcdefghijklmnopqrstuvwxyz=3").due(1, "language");
-        s.due(3, "letter", 0).due(3, "letter", 25).text("az=5").due(1, "language").due(5, "letter", 0).due(3, "letter", 1);
+        s.wrong(0, "=1", "language").wrong(4, "a=1 =2", "language").wrong(1, "a", "language");
+        s.wrong(1, "a1", "language");
+        s.wrong(1, "a b=1", "language").wrong(0, "A=1", "language").wrong(1, "aB=1", "language");
+        s.wrong(0, "`=1", "language");
+        s.wrong(0, "{=1", "language").wrong(1, "a.=1", "language").text("abcdefghijklmnopqrstuvwxyz=3");
+        s.due(1, "language");
+        s.due(3, "letter", 0).due(3, "letter", 25).text("az=5").due(1, "language").due(5, "letter", 0);
+        s.due(3, "letter", 1);
         s.due(5, "letter", 25);
     }
 
     private static void mouthsOfLetters() {
         Script s = on("Part VII: a MOUTH 0 .. 7 (a digit)");
         s.text("a=0").due(1, "language").text("a=7").due(1, "language").due(7, "letter", 0).wrong(2, "a=8", "language");
-        s.wrong(2, "a=9", "language").wrong(3, "a=00", "language").wrong(3, "a=10", "language").wrong(2, "a=-1", "language");
+        s.wrong(2, "a=9", "language").wrong(3, "a=00", "language").wrong(3, "a=10", "language");
+        s.wrong(2, "a=-1", "language");
         s.wrong(2, "a=", "language").wrong(2, "a=x", "language").wrong(2, "a==1", "language").due(7, "letter", 0);
     }
 
@@ -76,37 +85,53 @@ public final class LipsBoundsTest {
 
     private static void wrongLanguagesChangeNothing() {
         Script s = on("Promise 33: THE TAPE is a LANGUAGE: how many groups; WRONG");
-        s.text("abc=1").due(1, "language").wrong(6, "a=2 b=8", "language").wrong(4, "a=2 ", "language").wrong(3, "a=23", "language");
+        s.text("abc=1").due(1, "language").wrong(6, "a=2 b=8", "language").wrong(4, "a=2 ", "language");
+        s.wrong(3, "a=23", "language");
         for (int k = 0; k < 26; k++) {
             s.due(k < 3 ? 1 : 0, "letter", k);
         }
     }
 
+    private static void wrongLanguagesAreNotTakenUpLater() {
+        Script s = on("Part VII: others stay, also behind a LANGUAGE that was WRONG");
+        s.wrong(3, "q=7x", "language").wrong(8, "q=7 z=5 !", "language").text("a=1").due(1, "language");
+        s.due(1, "letter", 0);
+        s.due(0, "letter", 16).due(0, "letter", 25);
+    }
+
     private static void letterRefuses() {
         Script s = on("Promise 34: 0 for a .. 25; NONE if there is none such");
-        s.text("az=6").due(1, "language").outside(-1, "letter", Script.with(0), 0, 25).due(6, "letter", 0).due(6, "letter", 25);
+        s.text("az=6").due(1, "language").outside(-1, "letter", Script.with(0), 0, 25).due(6, "letter", 0);
+        s.due(6, "letter", 25);
     }
 
     private static void soundsOneAtLeast() {
         Script s = on("Part VII: a text of SOUNDS, one at least, with a blank between: a letter, or .");
-        s.wrong(0, "", "speech").wrong(0, " ", "speech").wrong(3, "a1 ", "speech").wrong(3, "a1  b1", "speech").wrong(0, " a1", "speech");
-        s.wrong(2, "a1b1", "speech").wrong(0, "1", "speech").wrong(0, "A1", "speech").wrong(0, "{1", "speech").wrong(0, "`1", "speech");
-        s.wrong(0, "-1", "speech").wrong(1, "aa1", "speech").wrong(1, "..1", "speech").wrong(1, "a 1", "speech").due(0, "count", 6);
+        s.wrong(0, "", "speech").wrong(0, " ", "speech").wrong(3, "a1 ", "speech").wrong(3, "a1  b1", "speech");
+        s.wrong(0, " a1", "speech");
+        s.wrong(2, "a1b1", "speech").wrong(0, "1", "speech").wrong(0, "A1", "speech").wrong(0, "{1", "speech");
+        s.wrong(0, "`1", "speech");
+        s.wrong(0, "-1", "speech").wrong(1, "aa1", "speech").wrong(1, "..1", "speech").wrong(1, "a 1", "speech");
+        s.due(0, "count", 6);
         s.text("z1").due(1, "speech").text(".1").due(1, "speech").due(0, "mouth", 0, 0);
     }
 
     private static void framesOfASound() {
         Script s = on("Part VII: right behind it a NUMBER 1 .. 99 of FRAMES");
-        s.wrong(1, "a0", "speech").wrong(1, "a100", "speech").wrong(1, "a", "speech").wrong(1, ".", "speech").wrong(2, "a01", "speech");
-        s.wrong(1, ".0", "speech").wrong(4, "a1 b100", "speech").due(0, "count", 6).text("a1").due(1, "speech").due(1, "mouth", 0, 2);
+        s.wrong(1, "a0", "speech").wrong(1, "a100", "speech").wrong(1, "a", "speech").wrong(1, ".", "speech");
+        s.wrong(2, "a01", "speech");
+        s.wrong(1, ".0", "speech").wrong(4, "a1 b100", "speech").due(0, "count", 6).text("a1").due(1, "speech");
+        s.due(1, "mouth", 0, 2);
         s.text("a99").due(1, "speech").due(99, "mouth", 0, 2);
     }
 
     private static void framesOfASpeech() {
         Script s = on("Part VII: 120 in all at most (one by which there would be more is one too many)");
-        s.text("a99 .21").due(1, "speech").due(120, "mouth", 0, 2).wrong(4, "a99 .22", "speech").wrong(8, "a99 .21 b1", "speech");
+        s.text("a99 .21").due(1, "speech").due(120, "mouth", 0, 2).wrong(4, "a99 .22", "speech");
+        s.wrong(8, "a99 .21 b1", "speech");
         s.wrong(8, "a99 .21 ", "speech").wrong(4, "a99 b99 c", "speech").due(120, "mouth", 0, 2);
-        s.text(Checks.repeat("a1", 120)).due(1, "speech").wrong(360, Checks.repeat("a1", 121), "speech").due(1, "count", 6);
+        s.text(Checks.repeat("a1", 120)).due(1, "speech").wrong(360, Checks.repeat("a1", 121), "speech");
+        s.due(1, "count", 6);
     }
 
     private static void soundsAreAskedWhenTheyHaveBeenRead() {
@@ -168,7 +193,8 @@ public final class LipsBoundsTest {
     private static void speechesInPlaceOfOthers() {
         Script s = on("Promise 35: THE TAPE is SPEECH, in place of another one; WRONG");
         says(s, "a5 b5 c5", 1, 5, 2, 5, 3, 5);
-        s.wrong(3, "d5 !", "speech").wrong(0, "", "speech").wrong(8, "d99 d21 a1", "speech").due(3, "count", 6).due(3, "mouth", 2, 0);
+        s.wrong(3, "d5 !", "speech").wrong(0, "", "speech").wrong(8, "d99 d21 a1", "speech").due(3, "count", 6);
+        s.due(3, "mouth", 2, 0);
         says(s, "d7", 4, 7);
         s.due(-1, "mouth", 1, 0).due(-1, "mouth", 2, 0);
     }
@@ -199,7 +225,8 @@ public final class LipsBoundsTest {
     private static void blinksAtTheFirst() {
         Script s = on("Part VII: the first begins at FRAME 20 + (a draw mod 32)");
         // R is 12345, so the draw is 0
-        s.due(0, "blink", 0, 0).due(0, "blink", 0, 19).due(1, "blink", 0, 20).due(1, "blink", 0, 22).due(0, "blink", 0, 23);
+        s.due(0, "blink", 0, 0).due(0, "blink", 0, 19).due(1, "blink", 0, 20).due(1, "blink", 0, 22);
+        s.due(0, "blink", 0, 23);
         for (int seed = -40; seed < 40; seed++) {
             int first = 20;
             while (s.same("blink", seed, first) == 0 && first < 51) {

@@ -55,7 +55,8 @@ public final class LongBoundsTest {
             s.due(-4, "fill", d, 3, 2, 0, 7).due(6, "paint", d, 3, 2).due(6 * d + 6, "count", 1);
         }
         for (int d = 0; d < 16; d++) {
-            s.due(5, "unfill", d, 5).due(5, "paint", d, 3, 2).due(1, "region", d, 4).due(-1, "region", d, 5).due(1, "fill", d, 3, 2, 0, 8);
+            s.due(5, "unfill", d, 5).due(5, "paint", d, 3, 2).due(1, "region", d, 4).due(-1, "region", d, 5);
+            s.due(1, "fill", d, 3, 2, 0, 8);
             s.due(-4, "fill", d, 3, 2, 0, 9).due(8, "paint", d, 3, 2).due(96, "count", 1);
         }
     }
@@ -134,8 +135,10 @@ public final class LongBoundsTest {
     private static void wrongTextsAgainAndAgain() {
         Script s = on("Part I: a WRONG text leaves nothing for the next one");
         for (int k = 0; k < 18; k++) {
-            s.wrong(10, "1 0,0 9,9 9,9", "stroke", 0).text("2 " + k + ",0 9,9").due(0, "stroke", 0).due(0, "take", 0, 0);
-            s.wrong(4, "7*9 x", "sheet", 0).text("8*9").due(9, "sheet", 0).wrong(3, "q=7x", "language").due(0, "letter", 16);
+            s.wrong(10, "1 0,0 9,9 9,9", "stroke", 0).text("2 " + k + ",0 9,9").due(0, "stroke", 0);
+            s.due(0, "take", 0, 0);
+            s.wrong(4, "7*9 x", "sheet", 0).text("8*9").due(9, "sheet", 0).wrong(3, "q=7x", "language");
+            s.due(0, "letter", 16);
             s.wrong(3, "a9 !", "speech").wrong(5, "blur 0", "node").wrong(2, "9 101", "track", 0, 0).due(0, "mix", 0);
         }
     }
@@ -143,8 +146,10 @@ public final class LongBoundsTest {
     private static void rowsAgainAndAgain() {
         Script s = on("Part IV: rows of 120 FRAMES, again and again");
         for (int k = 0; k < 40; k++) {
-            s.text("(" + k % 16 + " -)*20 " + k % 16 + "*80").due(120, "sheet", k % 4).due(-4, "stretch", k % 4, 20, 19);
-            s.due(60, "stretch", k % 4, 1, 2).due(k % 16, "shown", k % 4, 0).due(k % 16, "shown", k % 4, 1).due(120, "stretch", k % 4, 2, 1);
+            s.text("(" + k % 16 + " -)*20 " + k % 16 + "*80").due(120, "sheet", k % 4);
+            s.due(-4, "stretch", k % 4, 20, 19);
+            s.due(60, "stretch", k % 4, 1, 2).due(k % 16, "shown", k % 4, 0).due(k % 16, "shown", k % 4, 1);
+            s.due(120, "stretch", k % 4, 2, 1);
             s.due(k % 16, "shown", k % 4, 119).due(-1, "shown", k % 4, 120);
             s.same("told", k % 4);
             s.same("out", 4);
@@ -172,7 +177,8 @@ public final class LongBoundsTest {
     private static void tweensOfTweens() {
         Script s = on("Promise 25: an IN-BETWEEN of IN-BETWEENS");
         for (int k = 0; k < 4; k++) {
-            s.text((k + 1) + " " + k * 9 + ",0 40,30 1," + k).due(k, "stroke", 0).text((k + 2) + " " + k * 7 + ",3 47,31").due(k, "stroke", 1);
+            s.text((k + 1) + " " + k * 9 + ",0 40,30 1," + k).due(k, "stroke", 0);
+            s.text((k + 2) + " " + k * 7 + ",3 47,31").due(k, "stroke", 1);
         }
         for (int k = 0; k < 110; k++) {
             s.same("tween", k % 5, (k + 1) % 5, k % 25, 24, (k + 2 + k % 3) % 5);
@@ -227,7 +233,8 @@ public final class LongBoundsTest {
             s.due(k + 1, "camera", k * 50 % 120, k, k, 64 + k);
         }
         for (int k = 0; k < 95; k++) {
-            s.due(-4, "camera", 7, 0, 0, 64).due(7, "camera", k * 50 % 120, 0, 0, 0).due(8, "camera", (k + 8) * 50 % 120, k, -k, 64 + k);
+            s.due(-4, "camera", 7, 0, 0, 64).due(7, "camera", k * 50 % 120, 0, 0, 0);
+            s.due(8, "camera", (k + 8) * 50 % 120, k, -k, 64 + k);
             s.same("seen", k % 4, 30, 30, k, k % 2);
             s.same("cutOff", k % 4, k, 119);
         }
@@ -262,10 +269,12 @@ public final class LongBoundsTest {
 
     private static void filmsAgainAndAgain() {
         Script s = on("Promise 47: THE FILM is taken, in place of another one, again and again");
-        s.text("paper 16777215").due(0, "node").text("paper 1").due(1, "node").text("fade 0 1 0 119").due(2, "node").text("layer 0 0").due(3, "node");
+        s.text("paper 16777215").due(0, "node").text("paper 1").due(1, "node").text("fade 0 1 0 119").due(2, "node");
+        s.text("layer 0 0").due(3, "node");
         for (int k = 0; k < 70; k++) {
             int most = k % 2 == 0 ? 8 * 6158 : 8 * 14;
-            s.due(most, "film", k % 2 == 0 ? 2 : 3, k, k + 7).due(8, "count", 4).due(most, "count", 5).due(-1, "out", most);
+            s.due(most, "film", k % 2 == 0 ? 2 : 3, k, k + 7).due(8, "count", 4).due(most, "count", 5);
+            s.due(-1, "out", most);
             s.same("out", most - 1);
             s.same("played", 7, k % 48, k % 32);
             s.due(-3, "played", 8, 0, 0);
@@ -285,8 +294,10 @@ public final class LongBoundsTest {
 
     private static void allFullAtOnce() {
         Script s = FullHouse.build(CHECKS, "FULL of each thing, in one house");
-        s.text("1 0,0 1,1").due(-4, "stroke", 0).text("paper 1").due(-4, "node").due(-4, "fill", 0, 15, 15, 3, 1).due(-4, "mark", 5, 5);
-        s.due(-4, "bone", 0, 1, 0, 1).due(-4, "key", 0, 1, 1).due(-4, "reach", 0, 1, 0, 0).due(-4, "camera", 1, 0, 0, 64);
+        s.text("1 0,0 1,1").due(-4, "stroke", 0).text("paper 1").due(-4, "node").due(-4, "fill", 0, 15, 15, 3, 1);
+        s.due(-4, "mark", 5, 5);
+        s.due(-4, "bone", 0, 1, 0, 1).due(-4, "key", 0, 1, 1).due(-4, "reach", 0, 1, 0, 0);
+        s.due(-4, "camera", 1, 0, 0, 64);
         s.due(-4, "stretch", 0, 2, 1).due(-4, "erase", 0, 20, 15, 0);
         for (int k = 1; k <= 80; k++) {
             s.due(20 * k, "feed", 0, 0, 0, 0, 0);
@@ -303,7 +314,8 @@ public final class LongBoundsTest {
     private static void theLastCall() {
         for (int last = 0; last < 6; last++) {
             Script s = on("What it is: at most 512 calls after it has been made");
-            s.text("1 10,10 20,10 20,20 10,20 10,10").due(0, "stroke", 0).text("0*9").due(9, "sheet", 0).text("layer 0 0").due(0, "node");
+            s.text("1 10,10 20,10 20,20 10,20 10,10").due(0, "stroke", 0).text("0*9").due(9, "sheet", 0);
+            s.text("layer 0 0").due(0, "node");
             while (s.calls() < Script.CALLS - 1) {
                 s.due(s.calls() % 2 == 0 ? 40 : 0, s.calls() % 2 == 0 ? "drawn" : "flicker", 0, 1 + s.calls() % 7);
             }

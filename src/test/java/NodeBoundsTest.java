@@ -42,7 +42,8 @@ public final class NodeBoundsTest {
 
     /** Node 0: a square of 25 PIXELS at 10,10 .. 14,14, INK 1118481 around 2236962; node 1: paper 200. */
     private static Script square(String sentence) {
-        Script s = on(sentence).text("1 10,10 14,10 14,14 10,14 10,10").due(0, "stroke", 0).due(9, "fill", 0, 12, 12, 0, 2);
+        Script s = on(sentence).text("1 10,10 14,10 14,14 10,14 10,10").due(0, "stroke", 0);
+        s.due(9, "fill", 0, 12, 12, 0, 2);
         s.text("0*99 0*21").due(120, "sheet", 0).text("layer 0 0").due(0, "node").text("paper 200").due(1, "node");
         return s;
     }
@@ -57,10 +58,14 @@ public final class NodeBoundsTest {
 
     private static void nodesTellOfLessNumbers() {
         Script s = on("Part IX: A, B are nodes with a less number");
-        s.wrong(5, "over 0 0", "node").wrong(6, "shift 0 1 1", "node").wrong(6, "matte 0 0", "node").wrong(5, "fade 0 0 0 1", "node");
-        s.wrong(5, "blur 0", "node").text("paper 1").due(0, "node").wrong(5, "over 1 0", "node").wrong(7, "over 0 1", "node");
-        s.wrong(6, "shift 1 1 1", "node").wrong(6, "matte 1 0", "node").wrong(8, "matte 0 1", "node").wrong(5, "fade 1 0 0 1", "node");
-        s.wrong(7, "fade 0 1 0 1", "node").wrong(5, "blur 1", "node").wrong(5, "blur -1", "node").text("blur 0").due(1, "node");
+        s.wrong(5, "over 0 0", "node").wrong(6, "shift 0 1 1", "node").wrong(6, "matte 0 0", "node");
+        s.wrong(5, "fade 0 0 0 1", "node");
+        s.wrong(5, "blur 0", "node").text("paper 1").due(0, "node").wrong(5, "over 1 0", "node");
+        s.wrong(7, "over 0 1", "node");
+        s.wrong(6, "shift 1 1 1", "node").wrong(6, "matte 1 0", "node").wrong(8, "matte 0 1", "node");
+        s.wrong(5, "fade 1 0 0 1", "node");
+        s.wrong(7, "fade 0 1 0 1", "node").wrong(5, "blur 1", "node").wrong(5, "blur -1", "node").text("blur 0");
+        s.due(1, "node");
         s.text("over 1 1").due(2, "node").wrong(5, "over 3 0", "node").wrong(5, "blur 10", "node").due(3, "count", 3);
         // those that went are there no more
         s.due(3, "clear").wrong(5, "blur 0", "node");
@@ -71,8 +76,10 @@ public final class NodeBoundsTest {
         for (int k = 0; k < 10; k++) {
             s.text("paper " + k).due(k, "node");
         }
-        s.text("paper 1").due(-4, "node").text("blur 9").due(-4, "node").text("over 9 9").due(-4, "node").due(10, "count", 3);
-        s.wrong(5, "blur 10", "node").wrong(5, "paper", "node").wrong(0, "x", "node").wrong(0, "", "node").wrong(6, "paper 16777216", "node");
+        s.text("paper 1").due(-4, "node").text("blur 9").due(-4, "node").text("over 9 9").due(-4, "node");
+        s.due(10, "count", 3);
+        s.wrong(5, "blur 10", "node").wrong(5, "paper", "node").wrong(0, "x", "node").wrong(0, "", "node");
+        s.wrong(6, "paper 16777216", "node");
         for (int k = 0; k < 10; k++) {
             s.due(k, "sample", k, 0, 0, 0);
         }
@@ -84,15 +91,18 @@ public final class NodeBoundsTest {
         s.text("paper 0").due(0, "node").text("paper 16777215").due(1, "node").wrong(6, "paper 16777216", "node");
         s.wrong(6, "paper -1", "node").wrong(6, "paper 999999999", "node");
         for (int n = 0; n < 2; n++) {
-            s.due(n * 16777215, "sample", n, 0, 0, 0).due(n * 16777215, "sample", n, 119, 47, 31).due(1536, "drawn", n, 60);
+            s.due(n * 16777215, "sample", n, 0, 0, 0).due(n * 16777215, "sample", n, 119, 47, 31);
+            s.due(1536, "drawn", n, 60);
         }
     }
 
     private static void layersAtTheBounds() {
         Script s = on("Part IX: layer L P: a LAYER 0 .. 3, a PALETTE 0 .. 3");
-        s.wrong(6, "layer 4 0", "node").wrong(8, "layer 0 4", "node").wrong(6, "layer -1 0", "node").wrong(8, "layer 3 -1", "node");
+        s.wrong(6, "layer 4 0", "node").wrong(8, "layer 0 4", "node").wrong(6, "layer -1 0", "node");
+        s.wrong(8, "layer 3 -1", "node");
         s.text("layer 0 3").due(0, "node").text("layer 3 0").due(1, "node").text("3 0,0 9,0").due(0, "stroke", 15);
-        s.text("15").due(1, "sheet", 0).due(3 * 1118481, "colour", 3, 3, 8).due(10, "drawn", 0, 0).due(8, "sample", 0, 0, 9, 0);
+        s.text("15").due(1, "sheet", 0).due(3 * 1118481, "colour", 3, 3, 8).due(10, "drawn", 0, 0);
+        s.due(8, "sample", 0, 0, 9, 0);
         s.due(0, "drawn", 1, 0).text("15").due(1, "sheet", 3).due(3 * 1118481, "sample", 1, 0, 9, 0);
     }
 
@@ -100,7 +110,8 @@ public final class NodeBoundsTest {
         Script s = on("Part IX: shift A X Y (INTS -60 .. 60)");
         s.text("paper 5").due(0, "node").wrong(8, "shift 0 61 0", "node").wrong(8, "shift 0 -61 0", "node");
         s.wrong(10, "shift 0 0 61", "node").wrong(10, "shift 0 0 -61", "node").wrong(11, "shift 0 60 61", "node");
-        s.text("shift 0 60 60").due(1, "node").text("shift 0 -60 -60").due(2, "node").text("shift 0 -47 31").due(3, "node");
+        s.text("shift 0 60 60").due(1, "node").text("shift 0 -60 -60").due(2, "node").text("shift 0 -47 31");
+        s.due(3, "node");
         s.due(0, "drawn", 1, 0).due(0, "drawn", 2, 0).due(1, "drawn", 3, 0).due(5, "sample", 3, 0, 0, 31);
     }
 
@@ -109,18 +120,23 @@ public final class NodeBoundsTest {
         s.text("paper 5").due(0, "node").wrong(9, "fade 0 0 120 119", "node").wrong(11, "fade 0 0 0 120", "node");
         s.wrong(11, "fade 0 0 0 0", "node").wrong(11, "fade 0 0 5 5", "node").wrong(11, "fade 0 0 5 4", "node");
         s.wrong(13, "fade 0 0 119 119", "node").wrong(13, "fade 0 0 119 120", "node").wrong(9, "fade 0 0 -1 5", "node");
-        s.wrong(13, "fade 0 0 118 118", "node").text("fade 0 0 118 119").due(1, "node").text("fade 0 0 0 119").due(2, "node");
+        s.wrong(13, "fade 0 0 118 118", "node").text("fade 0 0 118 119").due(1, "node").text("fade 0 0 0 119");
+        s.due(2, "node");
         s.text("fade 0 0 0 1").due(3, "node").due(5, "sample", 3, 1, 0, 0);
     }
 
     private static void sparksAtTheBounds() {
         Script s = on("Part IX: sparks S X Y N C (S INT -99999 .. 99999; X 0 .. 47, Y 0 .. 31; N 1 .. 20; C 0 .. 16777215)");
-        s.wrong(7, "sparks 100000 0 0 1 0", "node").wrong(7, "sparks -100000 0 0 1 0", "node").wrong(9, "sparks 0 48 0 1 0", "node");
-        s.wrong(11, "sparks 0 0 32 1 0", "node").wrong(13, "sparks 0 0 0 0 0", "node").wrong(13, "sparks 0 0 0 21 0", "node");
-        s.wrong(15, "sparks 0 0 0 1 16777216", "node").wrong(9, "sparks 0 -1 0 1 0", "node").wrong(11, "sparks 0 0 -1 1 0", "node");
+        s.wrong(7, "sparks 100000 0 0 1 0", "node").wrong(7, "sparks -100000 0 0 1 0", "node");
+        s.wrong(9, "sparks 0 48 0 1 0", "node");
+        s.wrong(11, "sparks 0 0 32 1 0", "node").wrong(13, "sparks 0 0 0 0 0", "node");
+        s.wrong(13, "sparks 0 0 0 21 0", "node");
+        s.wrong(15, "sparks 0 0 0 1 16777216", "node").wrong(9, "sparks 0 -1 0 1 0", "node");
+        s.wrong(11, "sparks 0 0 -1 1 0", "node");
         s.wrong(13, "sparks 0 0 0 -1 0", "node").wrong(15, "sparks 0 0 0 1 -1", "node").due(0, "count", 3);
         s.text("sparks -99999 47 31 20 16777215").due(0, "node").text("sparks 99999 0 0 1 0").due(1, "node");
-        s.due(16777215, "sample", 0, 0, 47, 31).due(0, "sample", 1, 0, 0, 0).due(1, "drawn", 0, 0).due(1, "drawn", 1, 0);
+        s.due(16777215, "sample", 0, 0, 47, 31).due(0, "sample", 1, 0, 0, 0).due(1, "drawn", 0, 0);
+        s.due(1, "drawn", 1, 0);
     }
 
     private static void nothingMoreIsTold() {
@@ -132,46 +148,56 @@ public final class NodeBoundsTest {
             s.wrong(length, text + " ", "node").wrong(length, text + " 0", "node").wrong(length, text + "x", "node");
             // one thing less, and two blanks
             int last = text.lastIndexOf(' ');
-            s.wrong(last, text.substring(0, last), "node").wrong(last + 1, text.substring(0, last) + " " + text.substring(last), "node");
+            s.wrong(last, text.substring(0, last), "node");
+            s.wrong(last + 1, text.substring(0, last) + " " + text.substring(last), "node");
         }
         s.due(1, "count", 3);
     }
 
     private static void wrongNodesChangeNothing() {
         Script s = on("Promise 43: WRONG: nothing comes");
-        s.text("paper 1").due(0, "node").wrong(7, "over 0 1", "node").wrong(14, "sparks 5 5 5 5", "node").wrong(9, "paper 123x", "node");
+        s.text("paper 1").due(0, "node").wrong(7, "over 0 1", "node").wrong(14, "sparks 5 5 5 5", "node");
+        s.wrong(9, "paper 123x", "node");
         s.due(1, "count", 3).due(-1, "sample", 1, 0, 0, 0).text("blur 0").due(1, "node").due(1, "sample", 1, 0, 3, 3);
     }
 
     private static void clearOfNoneAndOfAll() {
         Script s = on("Promise 44: all NODES go: how many there were");
-        s.due(0, "clear").text("paper 1").due(0, "node").due(1, "clear").due(0, "clear").due(0, "count", 3).due(-1, "drawn", 0, 0);
+        s.due(0, "clear").text("paper 1").due(0, "node").due(1, "clear").due(0, "clear").due(0, "count", 3);
+        s.due(-1, "drawn", 0, 0);
         for (int k = 0; k < 10; k++) {
             s.text("paper 1").due(k, "node");
         }
-        s.due(10, "clear").due(0, "count", 3).due(-1, "sample", 0, 0, 0, 0).due(-1, "sample", 9, 0, 0, 0).text("paper 2").due(0, "node");
+        s.due(10, "clear").due(0, "count", 3).due(-1, "sample", 0, 0, 0, 0).due(-1, "sample", 9, 0, 0, 0);
+        s.text("paper 2").due(0, "node");
         s.due(2, "sample", 0, 0, 0, 0).due(-1, "sample", 1, 0, 0, 0);
     }
 
     private static void layersWithoutADrawing() {
         Script s = on("Part IX: CLEAR for PAINT 0, without a drawing");
-        s.text("1 0,0 9,0").due(0, "stroke", 0).text("layer 0 0").due(0, "node").due(0, "drawn", 0, 0).text("- 0 - 1").due(4, "sheet", 0);
-        s.due(0, "drawn", 0, 0).due(10, "drawn", 0, 1).due(0, "drawn", 0, 2).due(0, "drawn", 0, 3).due(0, "drawn", 0, 4);
-        s.due(0, "drawn", 0, 119).due(-1, "sample", 0, 0, 0, 0).due(-1, "sample", 0, 1, 0, 1).due(1118481, "sample", 0, 1, 9, 0);
+        s.text("1 0,0 9,0").due(0, "stroke", 0).text("layer 0 0").due(0, "node").due(0, "drawn", 0, 0).text("- 0 - 1");
+        s.due(4, "sheet", 0);
+        s.due(0, "drawn", 0, 0).due(10, "drawn", 0, 1).due(0, "drawn", 0, 2).due(0, "drawn", 0, 3);
+        s.due(0, "drawn", 0, 4);
+        s.due(0, "drawn", 0, 119).due(-1, "sample", 0, 0, 0, 0).due(-1, "sample", 0, 1, 0, 1);
+        s.due(1118481, "sample", 0, 1, 9, 0);
         s.due(-1, "sample", 0, 1, 10, 0);
     }
 
     private static void layersOffThePaper() {
         Script s = on("Part IX: CLEAR off the paper");
-        s.text("1 0,0 47,0 47,31 0,31 0,0").due(0, "stroke", 0).due(1380, "fill", 0, 5, 5, 0, 2).text("0").due(1, "sheet", 0);
+        s.text("1 0,0 47,0 47,31 0,31 0,0").due(0, "stroke", 0).due(1380, "fill", 0, 5, 5, 0, 2).text("0");
+        s.due(1, "sheet", 0);
         s.text("layer 0 0").due(0, "node").due(1536, "drawn", 0, 0);
         int[][] ways = {{1, 0}, {-1, 0}, {0, 1}, {0, -1}};
         int[] due = {47 * 32, 47 * 32, 48 * 31, 48 * 31};
         for (int k = 0; k < 4; k++) {
             s.due(1, "camera", 0, ways[k][0], ways[k][1], 64).due(due[k], "drawn", 0, 0);
         }
-        s.due(1, "camera", 0, 1, 0, 64).due(-1, "sample", 0, 0, 47, 5).due(1118481, "sample", 0, 0, 46, 5).due(2236962, "sample", 0, 0, 0, 5);
-        s.due(1, "camera", 0, 47, 31, 64).due(1, "drawn", 0, 0).due(1118481, "sample", 0, 0, 0, 0).due(1, "camera", 0, 48, 0, 64);
+        s.due(1, "camera", 0, 1, 0, 64).due(-1, "sample", 0, 0, 47, 5).due(1118481, "sample", 0, 0, 46, 5);
+        s.due(2236962, "sample", 0, 0, 0, 5);
+        s.due(1, "camera", 0, 47, 31, 64).due(1, "drawn", 0, 0).due(1118481, "sample", 0, 0, 0, 0);
+        s.due(1, "camera", 0, 48, 0, 64);
         s.due(0, "drawn", 0, 0).due(1, "camera", 0, 0, 0, 16).due(12 * 8, "drawn", 0, 0).due(1, "camera", 0, 0, 0, 256);
         s.due(1536, "drawn", 0, 0).due(2236962, "sample", 0, 0, 0, 0);
     }
@@ -179,14 +205,17 @@ public final class NodeBoundsTest {
     private static void layersByPalettesAsTheyAre() {
         Script s = square("Part IX: by PALETTE P, as all are when it is asked");
         s.due(1118481, "sample", 0, 0, 10, 10).due(1118481, "colour", 0, 1, 0).due(0, "sample", 0, 0, 10, 10);
-        s.due(1118481, "colour", 1, 1, 7).due(0, "sample", 0, 0, 10, 10).due(25, "drawn", 0, 0).due(0, "colour", 0, 1, 16777215);
+        s.due(1118481, "colour", 1, 1, 7).due(0, "sample", 0, 0, 10, 10).due(25, "drawn", 0, 0);
+        s.due(0, "colour", 0, 1, 16777215);
         s.due(16777215, "sample", 0, 0, 10, 10).due(0, "take", 0, 0).due(0, "drawn", 0, 0);
     }
 
     private static void oversOfClear() {
         Script s = square("Part IX: over A B: A's, or B's where that is CLEAR");
-        s.text("over 0 1").due(2, "node").text("over 1 0").due(3, "node").text("layer 3 0").due(4, "node").text("over 4 0").due(5, "node");
-        s.text("over 4 4").due(6, "node").due(1118481, "sample", 2, 0, 10, 10).due(200, "sample", 2, 0, 9, 10).due(1536, "drawn", 2, 0);
+        s.text("over 0 1").due(2, "node").text("over 1 0").due(3, "node").text("layer 3 0").due(4, "node");
+        s.text("over 4 0").due(5, "node");
+        s.text("over 4 4").due(6, "node").due(1118481, "sample", 2, 0, 10, 10).due(200, "sample", 2, 0, 9, 10);
+        s.due(1536, "drawn", 2, 0);
         s.due(200, "sample", 3, 0, 10, 10).due(25, "drawn", 5, 0).due(0, "drawn", 6, 0).due(-1, "sample", 5, 0, 0, 0);
         // black is not CLEAR
         s.text("paper 0").due(7, "node").text("over 7 1").due(8, "node").due(0, "sample", 8, 0, 0, 0);
@@ -194,17 +223,23 @@ public final class NodeBoundsTest {
 
     private static void shiftsOffTheScreen() {
         Script s = square("Part IX: shift A X Y: A's at x - X, y - Y, CLEAR off the screen");
-        s.text("shift 0 -10 -10").due(2, "node").text("shift 0 33 17").due(3, "node").text("shift 0 34 18").due(4, "node");
-        s.text("shift 0 0 0").due(5, "node").text("shift 1 47 0").due(6, "node").text("shift 1 48 0").due(7, "node").text("shift 1 0 -31").due(8, "node");
-        s.text("shift 1 0 -32").due(9, "node").due(25, "drawn", 2, 0).due(1118481, "sample", 2, 0, 0, 0).due(25, "drawn", 3, 0);
-        s.due(1118481, "sample", 3, 0, 47, 31).due(16, "drawn", 4, 0).due(25, "drawn", 5, 0).due(32, "drawn", 6, 0).due(200, "sample", 6, 0, 47, 31);
+        s.text("shift 0 -10 -10").due(2, "node").text("shift 0 33 17").due(3, "node").text("shift 0 34 18");
+        s.due(4, "node");
+        s.text("shift 0 0 0").due(5, "node").text("shift 1 47 0").due(6, "node").text("shift 1 48 0").due(7, "node");
+        s.text("shift 1 0 -31").due(8, "node");
+        s.text("shift 1 0 -32").due(9, "node").due(25, "drawn", 2, 0).due(1118481, "sample", 2, 0, 0, 0);
+        s.due(25, "drawn", 3, 0);
+        s.due(1118481, "sample", 3, 0, 47, 31).due(16, "drawn", 4, 0).due(25, "drawn", 5, 0).due(32, "drawn", 6, 0);
+        s.due(200, "sample", 6, 0, 47, 31);
         s.due(0, "drawn", 7, 0).due(48, "drawn", 8, 0).due(200, "sample", 8, 0, 47, 0).due(0, "drawn", 9, 0);
     }
 
     private static void mattesOfClear() {
         Script s = square("Part IX: matte A B: A's where B's is not CLEAR");
-        s.text("matte 1 0").due(2, "node").text("matte 0 1").due(3, "node").text("layer 3 0").due(4, "node").text("matte 1 4").due(5, "node");
-        s.text("matte 4 1").due(6, "node").due(25, "drawn", 2, 0).due(200, "sample", 2, 0, 14, 14).due(-1, "sample", 2, 0, 15, 14);
+        s.text("matte 1 0").due(2, "node").text("matte 0 1").due(3, "node").text("layer 3 0").due(4, "node");
+        s.text("matte 1 4").due(5, "node");
+        s.text("matte 4 1").due(6, "node").due(25, "drawn", 2, 0).due(200, "sample", 2, 0, 14, 14);
+        s.due(-1, "sample", 2, 0, 15, 14);
         s.due(25, "drawn", 3, 0).due(1118481, "sample", 3, 0, 14, 14).due(0, "drawn", 5, 0).due(0, "drawn", 6, 0);
         s.text("paper 0").due(7, "node").text("matte 1 7").due(8, "node").due(1536, "drawn", 8, 0);
     }
@@ -217,24 +252,32 @@ public final class NodeBoundsTest {
         for (int k = 0; k < frames.length; k++) {
             s.due(due[k] * 65793, "sample", 2, frames[k], 7, 7);
         }
-        s.text("fade 0 1 0 119").due(3, "node").text("fade 0 1 118 119").due(4, "node").due(0, "sample", 3, 0, 0, 0).due(6579300, "sample", 3, 119, 0, 0);
-        s.due(0, "sample", 4, 118, 0, 0).due(6579300, "sample", 4, 119, 0, 0).due(0, "sample", 4, 0, 0, 0).due(65793, "sample", 3, 1, 0, 0);
+        s.text("fade 0 1 0 119").due(3, "node").text("fade 0 1 118 119").due(4, "node").due(0, "sample", 3, 0, 0, 0);
+        s.due(6579300, "sample", 3, 119, 0, 0);
+        s.due(0, "sample", 4, 118, 0, 0).due(6579300, "sample", 4, 119, 0, 0).due(0, "sample", 4, 0, 0, 0);
+        s.due(65793, "sample", 3, 1, 0, 0);
     }
 
     private static void fadesAtTheHalf() {
         Script s = square("Part IX: where A alone is, it, if 2 * s is below m; where B alone is, CLEAR, if 2 * s is below m");
-        s.text("fade 0 1 10 14").due(2, "node").text("fade 1 0 10 14").due(3, "node").text("fade 0 1 10 15").due(4, "node");
+        s.text("fade 0 1 10 14").due(2, "node").text("fade 1 0 10 14").due(3, "node").text("fade 0 1 10 15");
+        s.due(4, "node");
         s.text("fade 1 0 10 15").due(5, "node").text("fade 0 1 0 1").due(6, "node");
-        s.due(25, "drawn", 2, 11).due(1536, "drawn", 2, 12).due(1536, "drawn", 3, 11).due(25, "drawn", 3, 12).due(25, "drawn", 4, 12);
-        s.due(1536, "drawn", 4, 13).due(1536, "drawn", 5, 12).due(25, "drawn", 5, 13).due(25, "drawn", 6, 0).due(1536, "drawn", 6, 1);
-        s.due(200, "sample", 3, 11, 0, 0).due(-1, "sample", 3, 12, 0, 0).due(-1, "sample", 2, 11, 0, 0).due(200, "sample", 2, 12, 0, 0);
+        s.due(25, "drawn", 2, 11).due(1536, "drawn", 2, 12).due(1536, "drawn", 3, 11).due(25, "drawn", 3, 12);
+        s.due(25, "drawn", 4, 12);
+        s.due(1536, "drawn", 4, 13).due(1536, "drawn", 5, 12).due(25, "drawn", 5, 13).due(25, "drawn", 6, 0);
+        s.due(1536, "drawn", 6, 1);
+        s.due(200, "sample", 3, 11, 0, 0).due(-1, "sample", 3, 12, 0, 0).due(-1, "sample", 2, 11, 0, 0);
+        s.due(200, "sample", 2, 12, 0, 0);
     }
 
     private static void fadesAreRounded() {
         Script s = on("Part IX: each of the three ROUND of (A * (m - s) + B * s) / m, a half upwards");
-        s.text("paper 16711680").due(0, "node").text("paper 65535").due(1, "node").text("fade 0 1 0 2").due(2, "node").text("fade 1 0 0 2").due(3, "node");
+        s.text("paper 16711680").due(0, "node").text("paper 65535").due(1, "node").text("fade 0 1 0 2").due(2, "node");
+        s.text("fade 1 0 0 2").due(3, "node");
         // 255 and 0: 127.5
-        s.due(128 * 65793, "sample", 2, 1, 0, 0).due(128 * 65793, "sample", 3, 1, 0, 0).text("fade 0 1 0 119").due(4, "node");
+        s.due(128 * 65793, "sample", 2, 1, 0, 0).due(128 * 65793, "sample", 3, 1, 0, 0).text("fade 0 1 0 119");
+        s.due(4, "node");
         s.due(253 << 16 | 2 << 8 | 2, "sample", 4, 1, 0, 0).due(2 << 16 | 253 << 8 | 253, "sample", 4, 118, 0, 0);
         s.text("fade 0 0 0 3").due(5, "node").due(16711680, "sample", 5, 1, 0, 0).due(16711680, "sample", 5, 2, 0, 0);
     }
@@ -242,7 +285,8 @@ public final class NodeBoundsTest {
     private static void blursAtTheSides() {
         Script s = on("Part IX: blur A: over the PIXELS of the 3 by 3 around on the screen");
         // columns 0 and 46 have 1, the others 0: 10 and 255
-        s.text("1 0,0 0,31").due(0, "stroke", 0).text("1 46,0 46,31").due(1, "stroke", 0).text("2 1,0 1,31").due(2, "stroke", 0);
+        s.text("1 0,0 0,31").due(0, "stroke", 0).text("1 46,0 46,31").due(1, "stroke", 0).text("2 1,0 1,31");
+        s.due(2, "stroke", 0);
         s.text("2 47,0 47,31").due(3, "stroke", 0).due(1118481, "colour", 0, 1, 10).due(2236962, "colour", 0, 2, 255);
         s.text("0").due(1, "sheet", 0).text("layer 0 0").due(0, "node").text("blur 0").due(1, "node");
         // at all of these there are as many of the one as of the other: 132.5
@@ -256,17 +300,22 @@ public final class NodeBoundsTest {
         s.due(16777215, "sample", 3, 0, 47, 31).due(16777215, "sample", 3, 0, 24, 16);
         // one row at the upper side, one at the lower
         s.text("1 0,0 47,0").due(0, "stroke", 1).text("2 0,31 47,31").due(1, "stroke", 1).text("1").due(1, "sheet", 0);
-        s.due(10, "sample", 1, 0, 0, 0).due(10, "sample", 1, 0, 47, 0).due(255, "sample", 1, 0, 0, 31).due(255, "sample", 1, 0, 47, 31);
+        s.due(10, "sample", 1, 0, 0, 0).due(10, "sample", 1, 0, 47, 0).due(255, "sample", 1, 0, 0, 31);
+        s.due(255, "sample", 1, 0, 47, 31);
         s.due(96, "drawn", 1, 0);
     }
 
     private static void blursOfClear() {
         Script s = square("Part IX: CLEAR where A is; else over those that are not CLEAR in A");
-        s.text("blur 0").due(2, "node").text("layer 3 0").due(3, "node").text("blur 3").due(4, "node").due(25, "drawn", 2, 0).due(0, "drawn", 4, 0);
+        s.text("blur 0").due(2, "node").text("layer 3 0").due(3, "node").text("blur 3").due(4, "node");
+        s.due(25, "drawn", 2, 0).due(0, "drawn", 4, 0);
         // 17 and 34: a corner has 3 and 1, the PIXEL next to it 4 and 2, a side 3 and 3, the inside of a corner 5 and 4
-        s.due(21 * 65793, "sample", 2, 0, 10, 10).due(23 * 65793, "sample", 2, 0, 11, 10).due(26 * 65793, "sample", 2, 0, 12, 10);
-        s.due(25 * 65793, "sample", 2, 0, 11, 11).due(34 * 65793, "sample", 2, 0, 12, 12).due(-1, "sample", 2, 0, 9, 10);
-        s.text("sparks 1 30 9 1 70000").due(5, "node").text("blur 5").due(6, "node").due(70000, "sample", 6, 0, 30, 9).due(1, "drawn", 6, 0);
+        s.due(21 * 65793, "sample", 2, 0, 10, 10).due(23 * 65793, "sample", 2, 0, 11, 10);
+        s.due(26 * 65793, "sample", 2, 0, 12, 10);
+        s.due(25 * 65793, "sample", 2, 0, 11, 11).due(34 * 65793, "sample", 2, 0, 12, 12);
+        s.due(-1, "sample", 2, 0, 9, 10);
+        s.text("sparks 1 30 9 1 70000").due(5, "node").text("blur 5").due(6, "node").due(70000, "sample", 6, 0, 30, 9);
+        s.due(1, "drawn", 6, 0);
     }
 
     private static void sparksOfTwentyFourFrames() {
@@ -285,7 +334,8 @@ public final class NodeBoundsTest {
 
     private static void sparksOneAfterTheOther() {
         Script s = on("Part IX: SPARK k, 0 .. N - 1");
-        s.text("sparks 3 24 31 20 9").due(0, "node").text("sparks 3 24 31 1 9").due(1, "node").text("sparks 3 24 31 19 9").due(2, "node");
+        s.text("sparks 3 24 31 20 9").due(0, "node").text("sparks 3 24 31 1 9").due(1, "node");
+        s.text("sparks 3 24 31 19 9").due(2, "node");
         for (int f = 0; f < 20; f++) {
             // SPARK f has just begun
             s.due(9, "sample", 0, f, 24, 31);
@@ -331,7 +381,8 @@ public final class NodeBoundsTest {
         Script s = on("Promise 45: NONE if that is CLEAR, or there are none such");
         s.due(-1, "sample", 0, 0, 0, 0).text("paper 5").due(0, "node");
         s.outside(-1, "sample", Script.with(0, 0, 0, 0), 0, 0, 0, 119, 0, 47, 0, 31).due(5, "sample", 0, 119, 47, 31);
-        s.text("layer 0 0").due(1, "node").due(-1, "sample", 1, 0, 0, 0).due(-1, "sample", 9, 0, 0, 0).due(-1, "sample", 10, 0, 0, 0);
+        s.text("layer 0 0").due(1, "node").due(-1, "sample", 1, 0, 0, 0).due(-1, "sample", 9, 0, 0, 0);
+        s.due(-1, "sample", 10, 0, 0, 0);
     }
 
     private static void drawnOfNoneAndOfAll() {

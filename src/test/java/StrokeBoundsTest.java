@@ -23,6 +23,7 @@ public final class StrokeBoundsTest {
         erasesNothingAndAll();
         erasesInItsPlace();
         eraseIsFullAndDoesNothing();
+        eraseIsFullBeforeTheEndOfAStroke();
         eraseRefuses();
         linesAreRounded();
         meetsAtEnds();
@@ -100,7 +101,8 @@ public final class StrokeBoundsTest {
             s.text((k + 1) + " 0,0 1,1").due(k, "stroke", 3);
             all.append(k + 1).append(" 0,0 1,1\n");
         }
-        s.text("9 0,0 1,1").due(-4, "stroke", 3).wrong(0, "16 0,0 1,1", "stroke", 3).wrong(9, "9 0,0 1,1x", "stroke", 3);
+        s.text("9 0,0 1,1").due(-4, "stroke", 3).wrong(0, "16 0,0 1,1", "stroke", 3);
+        s.wrong(9, "9 0,0 1,1x", "stroke", 3);
         s.wrong(6, "9 0,0 0,0", "stroke", 3).text("9 0,0 1,1").due(-1, "stroke", 16).due(8, "count", 0);
         s.written(3, all.toString());
         s.text("9 0,0 1,1").due(0, "stroke", 4).due(7, "take", 3, 0).text("9 0,0 1,1").due(7, "stroke", 3);
@@ -184,7 +186,8 @@ public final class StrokeBoundsTest {
 
     private static void fitRefuses() {
         Script s = on("Promise 8: NONE if one can't be");
-        s.due(-1, "fit", 0, 0, 0).text("1 0,0 10,0 20,0").due(0, "stroke", 0).text("2 0,0 10,0 20,0").due(0, "stroke", 15);
+        s.due(-1, "fit", 0, 0, 0).text("1 0,0 10,0 20,0").due(0, "stroke", 0).text("2 0,0 10,0 20,0");
+        s.due(0, "stroke", 15);
         s.outside(-1, "fit", Script.with(0, 0, 20), 0, 15, 0, 0, 0, 20).due(-1, "fit", 1, 0, 0);
         s.written(0, "1 0,0 10,0 20,0\n").due(2, "fit", 15, 0, 0);
     }
@@ -198,7 +201,8 @@ public final class StrokeBoundsTest {
         s.text("1 20,11 20,12").due(0, "stroke", 0).due(1, "erase", 0, 10, 1, 10);
         s.text("1 20,11 20,12").due(0, "stroke", 0).due(0, "erase", 0, 20, 13, 0).due(1, "erase", 0, 20, 12, 0);
         // at the corners of the paper
-        s.text("1 0,0 47,0 47,31 0,31 0,1").due(0, "stroke", 0).due(1, "erase", 0, 0, 0, 0).due(2, "erase", 0, 47, 31, 0);
+        s.text("1 0,0 47,0 47,31 0,31 0,1").due(0, "stroke", 0).due(1, "erase", 0, 0, 0, 0);
+        s.due(2, "erase", 0, 47, 31, 0);
         s.written(0, "1 0,31 0,1\n");
     }
 
@@ -237,6 +241,17 @@ public final class StrokeBoundsTest {
         s.written(0, "1 10,0 20,0\n" + others);
     }
 
+    private static void eraseIsFullBeforeTheEndOfAStroke() {
+        Script s = on("Promise 9: FULL, and nothing, though what comes behind the ninth STROKE goes");
+        s.text("1 0,0 10,0 20,0 30,0").due(0, "stroke", 0);
+        for (int k = 1; k < 7; k++) {
+            s.text((k + 1) + " 0,2" + k + " 5,2" + k).due(k, "stroke", 0);
+        }
+        // its last SEGMENT goes with the middle one of the first STROKE, and its first one would be the ninth
+        s.text("9 12,9 16,9 16,1").due(7, "stroke", 0).due(-4, "erase", 0, 16, 1, 1).due(8, "count", 0);
+        s.due(7, "take", 0, 1).due(2, "erase", 0, 16, 1, 1).due(8, "count", 0);
+    }
+
     private static void eraseRefuses() {
         Script s = on("Promise 9: NONE if one can't be");
         s.text("1 0,0 47,0 47,31 0,31").due(0, "stroke", 0);
@@ -253,7 +268,8 @@ public final class StrokeBoundsTest {
         // 47 by 31: the last PIXEL is the end itself
         s.text("5 0,0 47,31").due(4, "stroke", 0).due(5, "paint", 0, 0, 0).due(5, "paint", 0, 47, 31);
         s.due(5, "paint", 0, 1, 1).due(5, "paint", 0, 46, 30).due(0, "paint", 0, 46, 31).due(5, "paint", 0, 24, 16);
-        s.text("6 40,5 41,5").due(5, "stroke", 0).due(6, "paint", 0, 40, 5).due(6, "paint", 0, 41, 5).due(0, "paint", 0, 42, 5);
+        s.text("6 40,5 41,5").due(5, "stroke", 0).due(6, "paint", 0, 40, 5).due(6, "paint", 0, 41, 5);
+        s.due(0, "paint", 0, 42, 5);
     }
 
     private static void meetsAtEnds() {
@@ -281,7 +297,8 @@ public final class StrokeBoundsTest {
     private static void meetsRefuses() {
         Script s = on("Promise 10: NONE if there are none such, or they are the same");
         s.due(-1, "meets", 0, 0, 0).due(-1, "meets", 0, 0, 1).text("1 0,0 9,9").due(0, "stroke", 0);
-        s.due(-1, "meets", 0, 0, 0).due(-1, "meets", 0, 0, 1).due(-1, "meets", 0, 1, 0).text("1 0,9 9,0").due(1, "stroke", 0);
+        s.due(-1, "meets", 0, 0, 0).due(-1, "meets", 0, 0, 1).due(-1, "meets", 0, 1, 0).text("1 0,9 9,0");
+        s.due(1, "stroke", 0);
         s.outside(-1, "meets", Script.with(0, 0, 1), 0, 15, 0, 1, 0, 1);
         s.due(-1, "meets", 0, 1, 1).due(-1, "meets", 1, 0, 1).due(1, "meets", 0, 0, 1);
     }

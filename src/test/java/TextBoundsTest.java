@@ -156,7 +156,8 @@ public final class TextBoundsTest {
         s.wrong(0, "123456789 0,0 1,1", "stroke", 0).wrong(9, "1234567890 0,0 1,1", "stroke", 0);
         s.wrong(2, "1*999999999", "sheet", 0).wrong(11, "1*9999999999", "sheet", 0);
         s.wrong(1, "a999999999", "speech").wrong(10, "a9999999999", "speech");
-        s.wrong(9, "2147483648", "track", 0, 0).wrong(10, "-2147483649", "track", 0, 0).wrong(0, "-999999999", "track", 0, 0);
+        s.wrong(9, "2147483648", "track", 0, 0).wrong(10, "-2147483649", "track", 0, 0);
+        s.wrong(0, "-999999999", "track", 0, 0);
         s.text("paper 0").due(0, "node").text("paper 16777215").due(1, "node");
     }
 
@@ -164,7 +165,8 @@ public final class TextBoundsTest {
         Script s = on("Part I: no 0 ahead of others");
         s.wrong(7, "paper 00", "node").wrong(7, "paper 01", "node").wrong(7, "paper 0000000001", "node");
         s.wrong(1, "01 0,0 1,1", "stroke", 0).wrong(3, "1 00,0 1,1", "stroke", 0).wrong(5, "1 0,01 1,1", "stroke", 0);
-        s.wrong(1, "00", "sheet", 0).wrong(3, "1*01", "sheet", 0).wrong(5, "(1)*02", "sheet", 0).wrong(2, "a05", "speech");
+        s.wrong(1, "00", "sheet", 0).wrong(3, "1*01", "sheet", 0).wrong(5, "(1)*02", "sheet", 0);
+        s.wrong(2, "a05", "speech");
         s.wrong(1, "07", "track", 0, 0).wrong(3, "0 00", "track", 0, 0);
         s.text("paper 10").due(0, "node").text("1 0,0 10,20").due(0, "stroke", 0).text("0*10 10").due(11, "sheet", 0);
     }
@@ -177,17 +179,20 @@ public final class TextBoundsTest {
         s.text("paper 1").due(0, "node").wrong(9, "shift 0 - 1", "node").wrong(9, "shift 0 -0 1", "node");
         s.wrong(8, "shift 0 +1 1", "node").wrong(12, "shift 0 -1 -", "node").wrong(8, "sparks -0 0 0 1 0", "node");
         // a NUMBER has none
-        s.wrong(6, "shift -1 1 1", "node").wrong(6, "paper -1", "node").wrong(1, "a-1", "speech").wrong(2, "1*-1", "sheet", 0);
+        s.wrong(6, "shift -1 1 1", "node").wrong(6, "paper -1", "node").wrong(1, "a-1", "speech");
+        s.wrong(2, "1*-1", "sheet", 0);
         s.wrong(2, "1 -1,0 1,1", "stroke", 0);
         s.text("shift 0 -1 -60").due(1, "node").text("0 -1 -100").due(3, "track", 0, 0);
     }
 
     private static void wordsAreAllThatStandsThere() {
         Script s = on("Part I: a WORD: all the small letters and digits that stand there; none of those told: its first byte");
-        for (String text : new String[] {"paperx 1", "paper1 1", "pape 1", "p 1", "x 1", "paper12", "layers 0 0", "z9z"}) {
+        String[] texts = {"paperx 1", "paper1 1", "pape 1", "p 1", "x 1", "paper12", "layers 0 0", "z9z", "xaper 1", "paped 1"};
+        for (String text : texts) {
             s.wrong(0, text, "node");
         }
-        s.wrong(0, "1paper 1", "node").wrong(0, "Paper 1", "node").wrong(0, "pApEr 1", "node").wrong(0, " paper 1", "node");
+        s.wrong(0, "1paper 1", "node").wrong(0, "Paper 1", "node").wrong(0, "pApEr 1", "node");
+        s.wrong(0, " paper 1", "node");
         s.wrong(5, "paper,1", "node").wrong(5, "paperX1", "node").wrong(5, "paper", "node").wrong(5, "paper`", "node");
         s.wrong(5, "paper{", "node").wrong(5, "paper/", "node").wrong(5, "paper:", "node").due(0, "count", 3);
     }
@@ -198,7 +203,8 @@ public final class TextBoundsTest {
         s.wrong(4, "1 0,", "stroke", 0).wrong(5, "1 0,0", "stroke", 0).wrong(6, "1 0,0 ", "stroke", 0);
         s.wrong(7, "1 0,0 1", "stroke", 0).wrong(8, "1 0,0 1,", "stroke", 0);
         s.wrong(2, "1 ", "sheet", 0).wrong(2, "1*", "sheet", 0).wrong(1, "(", "sheet", 0).wrong(2, "(1", "sheet", 0);
-        s.wrong(3, "(1 ", "sheet", 0).wrong(3, "(1*", "sheet", 0).wrong(3, "(1)", "sheet", 0).wrong(4, "(1)*", "sheet", 0);
+        s.wrong(3, "(1 ", "sheet", 0).wrong(3, "(1*", "sheet", 0).wrong(3, "(1)", "sheet", 0);
+        s.wrong(4, "(1)*", "sheet", 0);
         s.wrong(0, "", "language").wrong(1, "a", "language").wrong(2, "a=", "language").wrong(4, "a=1 ", "language");
         s.wrong(0, "", "speech").wrong(1, "a", "speech").wrong(1, ".", "speech").wrong(3, "a1 ", "speech");
         s.wrong(0, "", "node").wrong(4, "blur", "node").wrong(8, "layer 0 ", "node").wrong(7, "layer 0", "node");
@@ -244,7 +250,8 @@ public final class TextBoundsTest {
         }
         s.text("blur 0").due(-4, "node").due(0, "count", 9);
         // no other call takes anything from the tape
-        s.text(RIGHT).due(0, "unmark").due(10, "clear").due(8 * 10, "written", 0).due(-1, "fit", 0, 8, 0).due(9, "count", 9);
+        s.text(RIGHT).due(0, "unmark").due(10, "clear").due(8 * 10, "written", 0).due(-1, "fit", 0, 8, 0);
+        s.due(9, "count", 9);
     }
 
     private static void aTextOfTheWholeTape() {
