@@ -1,6 +1,7 @@
 import java.io.IOException;
 import java.lang.reflect.Method;
 import java.lang.reflect.Modifier;
+import java.net.URISyntaxException;
 import java.nio.file.Files;
 import java.nio.file.Path;
 import java.util.TreeSet;
@@ -14,7 +15,7 @@ public final class ReadmeTest {
     private static final Pattern BLOCK = Pattern.compile("(?s)```java\\n(.*?)```");
     private static final Pattern ANSWER = Pattern.compile("(house\\.\\w+\\([^;]*\\)); *// (-?\\d+)(,.*)?");
 
-    public static void main(String[] args) throws IOException, ReflectiveOperationException {
+    public static void main(String[] args) throws IOException, URISyntaxException, ReflectiveOperationException {
         String readme = Files.readString(Path.of("README.md"));
         runExample(readme);
         namesTests(readme);
@@ -28,7 +29,7 @@ public final class ReadmeTest {
         CHECKS.due("README.md: " + line, due, answer);
     }
 
-    private static void runExample(String readme) throws IOException, ReflectiveOperationException {
+    private static void runExample(String readme) throws IOException, URISyntaxException, ReflectiveOperationException {
         StringBuilder members = new StringBuilder();
         StringBuilder steps = new StringBuilder();
         int answers = 0;
@@ -55,8 +56,8 @@ public final class ReadmeTest {
         compileAndRun("public final class Example {\n" + members + "public static void main(String[] args) {\n" + steps + "}\n}\n");
     }
 
-    private static void compileAndRun(String source) throws IOException, ReflectiveOperationException {
-        Path classes = Path.of(ReadmeTest.class.getProtectionDomain().getCodeSource().getLocation().getPath());
+    private static void compileAndRun(String source) throws IOException, URISyntaxException, ReflectiveOperationException {
+        Path classes = Path.of(ReadmeTest.class.getProtectionDomain().getCodeSource().getLocation().toURI());
         Path file = classes.resolve("Example.java");
         Files.writeString(file, source);
         int failed = ToolProvider.getSystemJavaCompiler().run(null, null, null, "-cp", classes.toString(), "-d", classes.toString(),
