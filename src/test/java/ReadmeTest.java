@@ -53,15 +53,16 @@ public final class ReadmeTest {
         }
         CHECKS.due("each call of the example has its answer", calls, answers);
         CHECKS.due("there is an example", 1, answers > 0 ? 1 : 0);
-        compileAndRun("public final class Example {\n" + members + "public static void main(String[] args) {\n" + steps + "}\n}\n");
+        compileAndRun("public final class Example {\n" + members + "public static void main(String[] args) {\n" + steps
+                + "}\n}\n");
     }
 
     private static void compileAndRun(String source) throws IOException, URISyntaxException, ReflectiveOperationException {
         Path classes = Path.of(ReadmeTest.class.getProtectionDomain().getCodeSource().getLocation().toURI());
         Path file = classes.resolve("Example.java");
         Files.writeString(file, source);
-        int failed = ToolProvider.getSystemJavaCompiler().run(null, null, null, "-cp", classes.toString(), "-d", classes.toString(),
-                file.toString());
+        int failed = ToolProvider.getSystemJavaCompiler().run(null, null, null, "-cp", classes.toString(),
+                "-d", classes.toString(), file.toString());
         CHECKS.due("the example is compiled", 0, failed);
         if (failed == 0) {
             Class.forName("Example").getMethod("main", String[].class).invoke(null, (Object) new String[0]);
